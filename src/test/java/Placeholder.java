@@ -1,0 +1,1 @@
+public class Placeholder { public static void main(String[] a) {} }
