@@ -1,1 +1,0 @@
-public class Placeholder { public static void main(String[] a) {} }

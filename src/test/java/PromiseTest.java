@@ -1,0 +1,1113 @@
+import java.util.NoSuchElementException;
+
+/** One method for each promise of the document: ordinary inputs, edges and wrong inputs. */
+public final class PromiseTest {
+    private static final Class<IllegalArgumentException> ARGUMENT = IllegalArgumentException.class;
+    private static final Class<IllegalStateException> STATE = IllegalStateException.class;
+    private static final Class<IndexOutOfBoundsException> INDEX = IndexOutOfBoundsException.class;
+    private static final Class<NoSuchElementException> ELEMENT = NoSuchElementException.class;
+    private static final Class<UnsupportedOperationException> UNSUPPORTED =
+            UnsupportedOperationException.class;
+    private static final Class<ArithmeticException> ARITHMETIC = ArithmeticException.class;
+    private static final int[] NO_HEDGES = {-1, Integer.MIN_VALUE, 2, 6, Integer.MAX_VALUE};
+    private static final int[] NO_IDS = {-1, Integer.MIN_VALUE, 7, 12, Integer.MAX_VALUE};
+
+    private PromiseTest() {
+    }
+
+    public static void main(String[] args) {
+        promise01NewObject();
+        promise02AddHedge();
+        promise03Propose();
+        promise04Amend();
+        promise05Prune();
+        promise06Regrow();
+        promise07Vote();
+        promise08PassSeason();
+        promise09To11Hedges();
+        promise12HedgeAtRank();
+        promise13LeavesInFavour();
+        promise14WouldVeto();
+        promise15And16MotionsByPosition();
+        promise17To23QueriesAboutMotions();
+        promise24MotionAtRank();
+        promise25And26CommonMotion();
+        promise27PathSize();
+        promise28And29LongestPath();
+        promise30And31BestWorth();
+        promise32GoodSets();
+        promise33Season();
+        promise34And35Minutes();
+        promise36And37WeightTotals();
+        promise38MeanLeaves();
+        promise39CarriedShare();
+        promise40IsConsistent();
+        promise41Append();
+        promise42Run();
+        promise42RunOfEachCommand();
+        promise42RunThatFails();
+        promise43ErrorPosition();
+        promise44FailedCommand();
+        promise45And46Output();
+        promise47Undo();
+        promise47UndoOfEachChange();
+        promise48And49SaveAndRestore();
+        Check.finish();
+    }
+
+    // ---- makers
+
+    private static HedgeCommittee empty() {
+        return new HedgeCommittee();
+    }
+
+    /** Hedges 0: 10 leaves, 1 thorn, taste 5; and 1: 4 leaves, 2 thorns, taste 0. */
+    private static HedgeCommittee withHedges() {
+        HedgeCommittee c = empty();
+        c.addHedge(10, 1, 5);
+        c.addHedge(4, 2, 0);
+        return c;
+    }
+
+    /**
+     * <pre>
+     * 0:4*10 - 1:5*6 - 3:7*8 - 4:8*2
+     *        - 2:6*3
+     * 5:2*5  - 6:9*5
+     * </pre>
+     */
+    private static HedgeCommittee withTrees() {
+        HedgeCommittee c = withHedges();
+        c.propose(4, 10);
+        c.amend(0, 5, 6);
+        c.amend(0, 6, 3);
+        c.amend(1, 7, 8);
+        c.amend(3, 8, 2);
+        c.propose(2, 5);
+        c.amend(5, 9, 5);
+        return c;
+    }
+
+    private static HedgeCommittee withMotions(int count) {
+        HedgeCommittee c = empty();
+        for (int i = 0; i < count; i++) {
+            c.propose(i % 10, 1 + i);
+        }
+        return c;
+    }
+
+    private static void type(HedgeCommittee c, String text) {
+        for (int i = 0; i < text.length(); i++) {
+            c.append(text.charAt(i));
+        }
+    }
+
+    private static String line(HedgeCommittee c, int motion) {
+        StringBuilder line = new StringBuilder();
+        int length = c.writeBranch(motion);
+        for (int i = 0; i < length; i++) {
+            line.append(c.outputAt(i));
+        }
+        return line.toString();
+    }
+
+    /** All that the face shows of the state, but for the buffer and what run and output keep. */
+    private static String picture(HedgeCommittee c) {
+        StringBuilder picture = new StringBuilder();
+        for (int hedge = 0; hedge < c.hedgeCount(); hedge++) {
+            picture.append(c.leaves(hedge)).append('/').append(c.thorns(hedge)).append(' ');
+        }
+        for (int at = 0; at < c.motionCount(); at++) {
+            int id = c.motionAt(at);
+            Object above = Check.outcome(() -> c.parent(id));
+            picture.append(id).append(':').append(c.tone(id)).append('*').append(c.weight(id));
+            picture.append('<').append(above).append(' ');
+        }
+        for (int season = 0; season < 4; season++) {
+            picture.append(c.minutesIn(season)).append(' ');
+        }
+        picture.append(c.season()).append(' ').append(c.adoptedWeight()).append(' ');
+        picture.append(c.weightByAccounts()).append(' ').append(Check.outcome(c::carriedShare));
+        return picture.toString();
+    }
+
+    // ---- changes
+
+    private static void promise01NewObject() {
+        HedgeCommittee c = empty();
+        Check.equal("1 hedgeCount", c.hedgeCount(), 0);
+        Check.equal("1 motionCount", c.motionCount(), 0);
+        Check.equal("1 season", c.season(), 0);
+        Check.equal("1 adoptedWeight", c.adoptedWeight(), 0);
+        Check.equal("1 weightTotal", c.weightTotal(), 0);
+        Check.equal("1 weightByAccounts", c.weightByAccounts(), 0);
+        Check.equal("1 first id", c.propose(0, 1), 0);
+        HedgeCommittee other = empty();
+        Check.equal("1 another object has nothing of the first", other.motionCount(), 0);
+    }
+
+    private static void promise02AddHedge() {
+        HedgeCommittee c = empty();
+        int[][] wrong = {{0, 0, 0}, {100, 0, 0}, {-1, 0, 0}, {1, -1, 0}, {1, 10, 0}, {1, 0, -1},
+            {1, 0, 10}, {Integer.MIN_VALUE, 0, 0}, {Integer.MAX_VALUE, 0, 0}};
+        for (int[] w : wrong) {
+            Check.thrown("2 addHedge out of range", ARGUMENT, () -> c.addHedge(w[0], w[1], w[2]));
+        }
+        Check.equal("2 nothing changed", c.hedgeCount(), 0);
+        Check.equal("2 least", c.addHedge(1, 0, 0), 0);
+        Check.equal("2 most", c.addHedge(99, 9, 9), 1);
+        Check.equal("2 leaves", c.leaves(1), 99);
+        Check.equal("2 thorns", c.thorns(1), 9);
+        for (int i = 2; i < 6; i++) {
+            Check.equal("2 index", c.addHedge(10 + i, i, i), i);
+        }
+        Check.thrown("2 seventh", STATE, () -> c.addHedge(1, 0, 0));
+        Check.thrown("2 seventh out of range", ARGUMENT, () -> c.addHedge(0, 0, 0));
+        Check.equal("2 still six", c.hedgeCount(), 6);
+        Check.equal("2 leaves of the last", c.leaves(5), 15);
+        Check.equal("2 thorns of the last", c.thorns(5), 5);
+    }
+
+    private static void promise03Propose() {
+        HedgeCommittee c = empty();
+        int[][] wrong = {{-1, 1}, {10, 1}, {0, 0}, {0, 21}, {0, -1}, {Integer.MAX_VALUE, 1},
+            {0, Integer.MIN_VALUE}};
+        for (int[] w : wrong) {
+            Check.thrown("3 propose out of range", ARGUMENT, () -> c.propose(w[0], w[1]));
+        }
+        Check.equal("3 least", c.propose(0, 1), 0);
+        Check.equal("3 most", c.propose(9, 20), 1);
+        Check.equal("3 tone", c.tone(1), 9);
+        Check.equal("3 weight", c.weight(1), 20);
+        Check.thrown("3 main motion", ELEMENT, () -> c.parent(1));
+        Check.equal("3 depth", c.depth(1), 0);
+        for (int i = 2; i < 12; i++) {
+            Check.equal("3 id", c.propose(1, 1), i);
+        }
+        Check.thrown("3 thirteenth", STATE, () -> c.propose(0, 1));
+        Check.thrown("3 thirteenth out of range", ARGUMENT, () -> c.propose(10, 1));
+        Check.thrown("3 thirteenth out of range", ARGUMENT, () -> c.propose(0, 0));
+        c.addHedge(1, 0, 1);
+        c.vote(5);
+        Check.equal("3 an id is not used again", c.propose(0, 1), 12);
+    }
+
+    private static void promise04Amend() {
+        HedgeCommittee c = empty();
+        Check.thrown("4 no motion", ELEMENT, () -> c.amend(0, 0, 1));
+        c.propose(3, 3);
+        int[][] wrong = {{-1, 1}, {10, 1}, {0, 0}, {0, 21}, {0, -1}};
+        for (int[] w : wrong) {
+            Check.thrown("4 amend out of range", ARGUMENT, () -> c.amend(0, w[0], w[1]));
+            Check.thrown("4 no motion comes first", ELEMENT, () -> c.amend(1, w[0], w[1]));
+        }
+        Check.equal("4 id", c.amend(0, 9, 20), 1);
+        Check.equal("4 least", c.amend(1, 0, 1), 2);
+        Check.equal("4 parent", c.parent(2), 1);
+        Check.equal("4 parent", c.parent(1), 0);
+        Check.equal("4 depth", c.depth(2), 2);
+        Check.equal("4 tone", c.tone(1), 9);
+        Check.equal("4 weight", c.weight(1), 20);
+        for (int i = 3; i < 12; i++) {
+            Check.equal("4 id", c.amend(i - 1, 1, 1), i);
+        }
+        Check.equal("4 deepest", c.depth(11), 11);
+        Check.thrown("4 full", STATE, () -> c.amend(0, 0, 1));
+        Check.thrown("4 full, out of range", ARGUMENT, () -> c.amend(0, 10, 1));
+        Check.thrown("4 full, out of range", ARGUMENT, () -> c.amend(0, 0, 21));
+        Check.thrown("4 full, no motion", ELEMENT, () -> c.amend(12, 0, 1));
+        Check.thrown("4 full, no motion, out of range", ELEMENT, () -> c.amend(-1, 10, 0));
+    }
+
+    private static void promise05Prune() {
+        HedgeCommittee c = withTrees();
+        Check.thrown("5 no motion", ELEMENT, () -> c.prune(7, 0));
+        Check.thrown("5 no motion comes first", ELEMENT, () -> c.prune(-1, 10));
+        Check.thrown("5 levels", ARGUMENT, () -> c.prune(0, -1));
+        Check.thrown("5 levels", ARGUMENT, () -> c.prune(0, 10));
+        Check.equal("5 nine levels", c.prune(0, 9), 0);
+        Check.equal("5 three levels", c.prune(0, 3), 0);
+        Check.equal("5 two levels", c.prune(0, 2), 1);
+        Check.equal("5 gone", Check.outcome(() -> c.weight(4)), ELEMENT.getName());
+        Check.equal("5 levels count from the motion", c.prune(1, 1), 0);
+        Check.equal("5 no level", c.prune(0, 0), 3);
+        Check.equal("5 the other tree stays", c.branchSize(5), 2);
+        Check.equal("5 its amendment stays", c.parent(6), 5);
+        Check.equal("5 the motion itself stays", c.motionAt(0), 0);
+        Check.equal("5 count", c.motionCount(), 3);
+        Check.equal("5 weight of the motion", c.weight(0), 10);
+
+        HedgeCommittee mixed = empty();
+        mixed.propose(0, 1);
+        mixed.propose(0, 2);
+        mixed.amend(0, 0, 3);
+        mixed.amend(1, 0, 4);
+        mixed.amend(2, 0, 5);
+        mixed.amend(3, 0, 6);
+        Check.equal("5 between others", mixed.prune(0, 0), 2);
+        Check.equal("5 parents hold", mixed.parent(5), 3);
+        Check.equal("5 parents hold", mixed.parent(3), 1);
+        Check.equal("5 line", line(mixed, 1), "1:0*2(3:0*4(5:0*6))");
+
+        HedgeCommittee chain = empty();
+        chain.propose(0, 1);
+        for (int i = 1; i < 12; i++) {
+            chain.amend(i - 1, 0, 1);
+        }
+        Check.equal("5 below nine levels", chain.prune(0, 9), 2);
+        Check.equal("5 below one of depth 4", chain.prune(4, 2), 3);
+        Check.equal("5 left", chain.motionCount(), 7);
+    }
+
+    private static void promise06Regrow() {
+        HedgeCommittee c = withTrees();
+        Check.thrown("6 no motion", ELEMENT, () -> c.regrow(7));
+        Check.equal("6 id", c.regrow(0), 7);
+        Check.equal("6 grows from the last tip", c.parent(7), 4);
+        Check.equal("6 tone", c.tone(7), 9);
+        Check.equal("6 weight", c.weight(7), 1);
+        Check.equal("6 id", c.regrow(5), 8);
+        Check.equal("6 grows from the last tip", c.parent(8), 6);
+        Check.equal("6 tone after 9", c.tone(8), 0);
+        Check.equal("6 half is rounded down", c.weight(8), 2);
+        Check.equal("6 a tip itself", c.regrow(2), 9);
+        Check.equal("6 parent", c.parent(9), 2);
+        Check.equal("6 weight", c.weight(9), 1);
+        Check.equal("6 of a weight of 1", c.weight(c.regrow(9)), 1);
+        Check.equal("6 the last tip is the greatest id", c.parent(c.regrow(0)), 10);
+        Check.equal("6 twelve", c.motionCount(), 12);
+        Check.thrown("6 full", STATE, () -> c.regrow(0));
+        Check.thrown("6 full, no motion", ELEMENT, () -> c.regrow(12));
+        Check.equal("6 weight counts", c.weightByAccounts(), c.weightTotal());
+
+        HedgeCommittee shallow = empty();
+        shallow.propose(0, 20);
+        shallow.amend(0, 1, 20);
+        shallow.amend(1, 2, 20);
+        shallow.amend(0, 3, 20);
+        Check.equal("6 not the deepest tip", shallow.parent(shallow.regrow(0)), 3);
+        Check.equal("6 half of 20", shallow.weight(4), 10);
+        Check.equal("6 tone", shallow.tone(4), 4);
+        Check.equal("6 of a branch", shallow.parent(shallow.regrow(1)), 2);
+    }
+
+    private static void promise07Vote() {
+        HedgeCommittee c = empty();
+        Check.thrown("7 no motion", ELEMENT, () -> c.vote(0));
+        c.propose(5, 4);
+        Check.thrown("7 no hedges", STATE, () -> c.vote(0));
+        c.addHedge(10, 0, 2);
+        c.addHedge(10, 0, 9);
+        Check.equal("7 half of the leaves is not enough", c.vote(0), 'r');
+        Check.equal("7 removed", c.motionCount(), 0);
+        Check.thrown("7 gone", ELEMENT, () -> c.vote(0));
+        c.addHedge(1, 0, 8);
+        c.propose(5, 4);
+        Check.equal("7 more than half, difference 3 above and below", c.vote(1), 'c');
+        Check.equal("7 minutes", c.minutesIn(0), 1);
+        Check.equal("7 adopted", c.adoptedWeight(), 4);
+        Check.equal("7 removed", c.motionCount(), 0);
+
+        HedgeCommittee v = withTrees();
+        Check.thrown("7 not a tip", STATE, () -> v.vote(0));
+        Check.equal("7 difference 8 and a thorn", v.vote(4), 'v');
+        Check.equal("7 the thorn is spent", v.thorns(1), 1);
+        Check.equal("7 the other hedge keeps its own", v.thorns(0), 1);
+        Check.equal("7 difference 7 and a thorn", v.vote(3), 'v');
+        Check.equal("7 the thorn is spent", v.thorns(1), 0);
+        Check.equal("7 the parent gets nothing of a veto", v.weight(1), 6);
+        Check.equal("7 no thorn and too few leaves", v.vote(6), 'r');
+        Check.equal("7 the parent gets nothing of a rejection", v.weight(5), 5);
+        Check.equal("7 carried", v.vote(1), 'c');
+        Check.equal("7 the parent gets the weight", v.weight(0), 16);
+        Check.equal("7 nothing in the minutes", v.minutesIn(0), 0);
+        Check.equal("7 nothing adopted", v.adoptedWeight(), 0);
+        Check.equal("7 carried", v.vote(2), 'c');
+        Check.equal("7 a main motion that became a tip", v.vote(0), 'c');
+        Check.equal("7 adopted with all weights", v.adoptedWeight(), 19);
+
+        HedgeCommittee two = empty();
+        two.addHedge(99, 1, 9);
+        two.addHedge(1, 9, 9);
+        two.addHedge(1, 9, 8);
+        two.addHedge(1, 0, 7);
+        two.propose(2, 1);
+        Check.equal("7 each hedge that vetoes", two.vote(0), 'v');
+        Check.equal("7 loses a thorn", two.thorns(0), 0);
+        Check.equal("7 loses a thorn", two.thorns(1), 8);
+        Check.equal("7 difference 6 keeps its thorns", two.thorns(2), 9);
+        Check.equal("7 without a thorn", two.thorns(3), 0);
+    }
+
+    private static void promise08PassSeason() {
+        HedgeCommittee c = empty();
+        c.addHedge(97, 8, 0);
+        c.addHedge(3, 9, 0);
+        c.addHedge(50, 0, 0);
+        Check.equal("8 summer", c.passSeason(), 1);
+        Check.equal("8 2 more", c.leaves(0), 99);
+        Check.equal("8 2 more", c.leaves(1), 5);
+        Check.equal("8 no thorn in summer", c.thorns(2), 0);
+        Check.equal("8 autumn", c.passSeason(), 2);
+        Check.equal("8 2 fewer", c.leaves(0), 97);
+        Check.equal("8 2 fewer", c.leaves(1), 3);
+        Check.equal("8 winter", c.passSeason(), 3);
+        Check.equal("8 4 fewer", c.leaves(0), 93);
+        Check.equal("8 not below 1", c.leaves(1), 1);
+        Check.equal("8 no thorn in winter", c.thorns(2), 0);
+        Check.equal("8 spring", c.passSeason(), 0);
+        Check.equal("8 4 more", c.leaves(0), 97);
+        Check.equal("8 4 more", c.leaves(1), 5);
+        Check.equal("8 a thorn in spring", c.thorns(0), 9);
+        Check.equal("8 not above 9", c.thorns(1), 9);
+        Check.equal("8 a thorn in spring", c.thorns(2), 1);
+        Check.equal("8 leaves of the third", c.leaves(2), 50);
+        c.addHedge(98, 0, 0);
+        c.addHedge(2, 0, 0);
+        c.passSeason();
+        Check.equal("8 not above 99", c.leaves(3), 99);
+        c.passSeason();
+        c.addHedge(5, 0, 0);
+        Check.equal("8 winter", c.passSeason(), 3);
+        Check.equal("8 not below 1", c.leaves(4), 1);
+        Check.equal("8 down to 1", c.leaves(5), 1);
+    }
+
+    // ---- queries about hedges
+
+    private static void promise09To11Hedges() {
+        HedgeCommittee c = withHedges();
+        Check.equal("9 hedgeCount", c.hedgeCount(), 2);
+        Check.equal("10 leaves", c.leaves(0), 10);
+        Check.equal("10 leaves", c.leaves(1), 4);
+        Check.equal("11 thorns", c.thorns(0), 1);
+        Check.equal("11 thorns", c.thorns(1), 2);
+        for (int hedge : NO_HEDGES) {
+            Check.thrown("10 no hedge", INDEX, () -> c.leaves(hedge));
+            Check.thrown("11 no hedge", INDEX, () -> c.thorns(hedge));
+        }
+        HedgeCommittee full = empty();
+        for (int i = 0; i < 6; i++) {
+            Check.equal("9 before", full.hedgeCount(), i);
+            full.addHedge(1, 1, 1);
+        }
+        Check.equal("9 six", full.hedgeCount(), 6);
+        Check.thrown("10 no hedge", INDEX, () -> full.leaves(6));
+        Check.thrown("11 no hedge", INDEX, () -> full.thorns(6));
+    }
+
+    private static void promise12HedgeAtRank() {
+        HedgeCommittee c = empty();
+        Check.thrown("12 none", ELEMENT, () -> c.hedgeAtRank(0));
+        c.addHedge(5, 2, 0);
+        c.addHedge(7, 0, 0);
+        c.addHedge(5, 3, 0);
+        c.addHedge(5, 2, 9);
+        c.addHedge(1, 9, 0);
+        int[] due = {1, 2, 0, 3, 4};
+        for (int rank = 0; rank < due.length; rank++) {
+            Check.equal("12 rank " + rank, c.hedgeAtRank(rank), due[rank]);
+        }
+        for (int rank : new int[] {-1, 5, 6, Integer.MIN_VALUE, Integer.MAX_VALUE}) {
+            Check.thrown("12 rank " + rank, ELEMENT, () -> c.hedgeAtRank(rank));
+        }
+    }
+
+    private static void promise13LeavesInFavour() {
+        HedgeCommittee c = empty();
+        c.propose(4, 1);
+        Check.equal("13 no hedges", c.leavesInFavour(0), 0);
+        c.addHedge(1, 9, 0);
+        c.addHedge(2, 0, 1);
+        c.addHedge(4, 9, 4);
+        c.addHedge(8, 0, 7);
+        c.addHedge(16, 0, 8);
+        Check.equal("13 differences up to 3", c.leavesInFavour(0), 14);
+        c.amend(0, 0, 1);
+        Check.equal("13 not a tip", c.leavesInFavour(0), 14);
+        Check.equal("13 tone 0", c.leavesInFavour(1), 3);
+        for (int id : NO_IDS) {
+            Check.thrown("13 no motion", ELEMENT, () -> c.leavesInFavour(id));
+        }
+    }
+
+    private static void promise14WouldVeto() {
+        HedgeCommittee c = empty();
+        c.propose(8, 1);
+        Check.thrown("14 no hedge", INDEX, () -> c.wouldVeto(0, 0));
+        c.addHedge(1, 1, 1);
+        c.addHedge(1, 9, 2);
+        c.addHedge(1, 0, 0);
+        c.addHedge(1, 2, 9);
+        Check.equal("14 difference 7", c.wouldVeto(0, 0), true);
+        Check.equal("14 difference 6", c.wouldVeto(1, 0), false);
+        Check.equal("14 no thorn", c.wouldVeto(2, 0), false);
+        Check.equal("14 difference 1", c.wouldVeto(3, 0), false);
+        c.amend(0, 2, 1);
+        Check.equal("14 not a tip", c.wouldVeto(0, 0), true);
+        Check.equal("14 tone below the taste", c.wouldVeto(3, 1), true);
+        Check.equal("14 no thorn is lost by asking", c.thorns(0), 1);
+        for (int id : NO_IDS) {
+            Check.thrown("14 no motion", ELEMENT, () -> c.wouldVeto(0, id));
+            Check.thrown("14 no hedge comes first", INDEX, () -> c.wouldVeto(4, id));
+            Check.thrown("14 no hedge comes first", INDEX, () -> c.wouldVeto(-1, id));
+        }
+    }
+
+    // ---- queries about motions
+
+    private static void promise15And16MotionsByPosition() {
+        HedgeCommittee c = withTrees();
+        Check.equal("15 count", c.motionCount(), 7);
+        c.prune(1, 0);
+        Check.equal("15 count", c.motionCount(), 5);
+        int[] due = {0, 1, 2, 5, 6};
+        for (int position = 0; position < due.length; position++) {
+            Check.equal("16 position " + position, c.motionAt(position), due[position]);
+        }
+        for (int position : new int[] {-1, 5, 12, Integer.MIN_VALUE, Integer.MAX_VALUE}) {
+            Check.thrown("16 position", INDEX, () -> c.motionAt(position));
+        }
+        HedgeCommittee full = withMotions(12);
+        Check.equal("15 twelve", full.motionCount(), 12);
+        Check.equal("16 last", full.motionAt(11), 11);
+        Check.thrown("16 behind the last", INDEX, () -> full.motionAt(12));
+        Check.thrown("16 none", INDEX, () -> empty().motionAt(0));
+    }
+
+    private static void promise17To23QueriesAboutMotions() {
+        HedgeCommittee c = withTrees();
+        int[] tones = {4, 5, 6, 7, 8, 2, 9};
+        int[] weights = {10, 6, 3, 8, 2, 5, 5};
+        int[] parents = {-1, 0, 0, 1, 3, -1, 5};
+        int[] depths = {0, 1, 1, 2, 3, 0, 1};
+        boolean[] tips = {false, false, true, false, true, false, true};
+        int[] sizes = {5, 3, 1, 2, 1, 2, 1};
+        int[] lastTips = {4, 4, 2, 4, 4, 6, 6};
+        for (int id = 0; id < tones.length; id++) {
+            int motion = id;
+            Check.equal("17 tone", c.tone(id), tones[id]);
+            Check.equal("18 weight", c.weight(id), weights[id]);
+            Object above = parents[id] < 0 ? ELEMENT.getName() : (Object) parents[id];
+            Check.equal("19 parent", Check.outcome(() -> c.parent(motion)), above);
+            Check.equal("20 depth", c.depth(id), depths[id]);
+            Check.equal("21 isTip", c.isTip(id), tips[id]);
+            Check.equal("22 branchSize", c.branchSize(id), sizes[id]);
+            Check.equal("23 lastTip", c.lastTip(id), lastTips[id]);
+        }
+        c.vote(4);
+        Check.equal("21 a tip again", c.isTip(3), true);
+        Check.equal("23 the last tip is the greatest, not the deepest", c.lastTip(0), 3);
+        c.amend(2, 0, 1);
+        Check.equal("23 lastTip", c.lastTip(0), 7);
+        Check.equal("23 lastTip of a branch beside it", c.lastTip(1), 3);
+        c.vote(7);
+        for (int id : NO_IDS) {
+            Check.thrown("17 no motion", ELEMENT, () -> c.tone(id));
+            Check.thrown("18 no motion", ELEMENT, () -> c.weight(id));
+            Check.thrown("19 no motion", ELEMENT, () -> c.parent(id));
+            Check.thrown("20 no motion", ELEMENT, () -> c.depth(id));
+            Check.thrown("21 no motion", ELEMENT, () -> c.isTip(id));
+            Check.thrown("22 no motion", ELEMENT, () -> c.branchSize(id));
+            Check.thrown("23 no motion", ELEMENT, () -> c.lastTip(id));
+        }
+    }
+
+    private static void promise24MotionAtRank() {
+        HedgeCommittee c = empty();
+        Check.thrown("24 none", INDEX, () -> c.motionAtRank(0));
+        c.propose(0, 3);
+        c.amend(0, 0, 5);
+        c.amend(1, 0, 5);
+        c.propose(0, 5);
+        c.amend(3, 0, 5);
+        c.amend(3, 0, 9);
+        int[] due = {5, 3, 1, 4, 2, 0};
+        for (int rank = 0; rank < due.length; rank++) {
+            Check.equal("24 rank " + rank, c.motionAtRank(rank), due[rank]);
+        }
+        for (int rank : new int[] {-1, 6, 12, Integer.MIN_VALUE, Integer.MAX_VALUE}) {
+            Check.thrown("24 rank " + rank, INDEX, () -> c.motionAtRank(rank));
+        }
+        HedgeCommittee gap = withMotions(3);
+        gap.addHedge(1, 0, 0);
+        gap.vote(0);
+        Check.equal("24 an id and not a position", gap.motionAtRank(0), 2);
+    }
+
+    // ---- queries about trees
+
+    private static void commonIs(HedgeCommittee c, int one, int other, Object due) {
+        Check.equal("25 common of " + one + " and " + other,
+                Check.outcome(() -> c.commonMotion(one, other)), due);
+        Check.equal("25 common of " + other + " and " + one,
+                Check.outcome(() -> c.commonMotion(other, one)), due);
+        Check.equal("26 common of " + one + " and " + other,
+                Check.outcome(() -> c.commonMotionByRows(one, other)), due);
+        Check.equal("26 common of " + other + " and " + one,
+                Check.outcome(() -> c.commonMotionByRows(other, one)), due);
+    }
+
+    private static void promise25And26CommonMotion() {
+        HedgeCommittee c = withTrees();
+        commonIs(c, 4, 2, 0);
+        commonIs(c, 3, 4, 3);
+        commonIs(c, 4, 0, 0);
+        commonIs(c, 1, 2, 0);
+        commonIs(c, 6, 6, 6);
+        commonIs(c, 5, 5, 5);
+        commonIs(c, 4, 6, UNSUPPORTED.getName());
+        commonIs(c, 2, 6, UNSUPPORTED.getName());
+        commonIs(c, 0, 5, UNSUPPORTED.getName());
+        commonIs(c, 4, 5, UNSUPPORTED.getName());
+        for (int id : NO_IDS) {
+            commonIs(c, 0, id, ELEMENT.getName());
+            commonIs(c, id, id, ELEMENT.getName());
+        }
+        c.amend(1, 0, 1);
+        c.amend(7, 0, 1);
+        commonIs(c, 4, 8, 1);
+        commonIs(c, 4, 7, 1);
+        c.vote(2);
+        commonIs(c, 4, 8, 1);
+        commonIs(c, 5, 6, 5);
+    }
+
+    private static void promise27PathSize() {
+        HedgeCommittee c = withTrees();
+        int[][] due = {{4, 2, 5}, {2, 4, 5}, {3, 3, 1}, {0, 0, 1}, {0, 4, 4}, {4, 3, 2}, {5, 6, 2},
+            {1, 2, 3}};
+        for (int[] d : due) {
+            Check.equal("27 path of " + d[0] + " and " + d[1], c.pathSize(d[0], d[1]), d[2]);
+        }
+        Check.thrown("27 no path", UNSUPPORTED, () -> c.pathSize(0, 5));
+        Check.thrown("27 no path", UNSUPPORTED, () -> c.pathSize(6, 4));
+        for (int id : NO_IDS) {
+            Check.thrown("27 no motion", ELEMENT, () -> c.pathSize(id, 0));
+            Check.thrown("27 no motion", ELEMENT, () -> c.pathSize(0, id));
+        }
+    }
+
+    private static void longestIs(HedgeCommittee c, int motion, int due) {
+        Check.equal("28 longest of " + motion, c.longestPath(motion), due);
+        Check.equal("29 longest of " + motion, c.longestPathBySweeps(motion), due);
+    }
+
+    private static void promise28And29LongestPath() {
+        HedgeCommittee c = withTrees();
+        int[] due = {5, 3, 1, 2, 1, 2, 1};
+        for (int id = 0; id < due.length; id++) {
+            longestIs(c, id, due[id]);
+        }
+        for (int id : NO_IDS) {
+            Check.thrown("28 no motion", ELEMENT, () -> c.longestPath(id));
+            Check.thrown("29 no motion", ELEMENT, () -> c.longestPathBySweeps(id));
+        }
+        c.amend(1, 0, 1);
+        c.amend(7, 0, 1);
+        c.amend(8, 0, 1);
+        longestIs(c, 0, 6);
+        longestIs(c, 1, 6);
+        longestIs(c, 7, 3);
+
+        HedgeCommittee chain = empty();
+        chain.propose(0, 1);
+        for (int i = 1; i < 12; i++) {
+            chain.amend(i - 1, 0, 1);
+        }
+        for (int i = 0; i < 12; i++) {
+            longestIs(chain, i, 12 - i);
+        }
+    }
+
+    private static void bestIs(HedgeCommittee c, int due) {
+        Check.equal("30 bestWorth", c.bestWorth(), due);
+        Check.equal("31 bestWorthBySets", c.bestWorthBySets(), due);
+    }
+
+    private static void promise30And31BestWorth() {
+        bestIs(empty(), 0);
+        HedgeCommittee c = withTrees();
+        bestIs(c, 23);
+        c.vote(6);
+        c.regrow(5);
+        bestIs(c, 23);
+        HedgeCommittee chain = empty();
+        chain.propose(0, 3);
+        bestIs(chain, 3);
+        chain.amend(0, 0, 4);
+        bestIs(chain, 4);
+        chain.amend(1, 0, 4);
+        bestIs(chain, 7);
+        chain.amend(2, 0, 5);
+        bestIs(chain, 9);
+        chain.amend(3, 0, 20);
+        bestIs(chain, 27);
+        HedgeCommittee star = empty();
+        star.propose(0, 20);
+        for (int i = 1; i < 12; i++) {
+            star.amend(0, 0, 2);
+        }
+        bestIs(star, 22);
+        bestIs(withMotions(12), 78);
+    }
+
+    private static void promise32GoodSets() {
+        Check.equal("32 the empty set", empty().goodSets(), 1);
+        Check.equal("32 one motion", withMotions(1).goodSets(), 2);
+        Check.equal("32 all sets", withMotions(12).goodSets(), 4096);
+        Check.equal("32 two trees", withTrees().goodSets(), 13 * 3);
+        HedgeCommittee chain = empty();
+        chain.propose(0, 1);
+        int before = 1;
+        int due = 2;
+        for (int i = 1; i < 12; i++) {
+            Check.equal("32 chain of " + i, chain.goodSets(), due);
+            chain.amend(i - 1, 0, 1);
+            due += before;
+            before = due - before;
+        }
+        Check.equal("32 chain of 12", chain.goodSets(), 377);
+    }
+
+    // ---- totals
+
+    private static void promise33Season() {
+        HedgeCommittee c = empty();
+        for (int i = 0; i < 10; i++) {
+            Check.equal("33 season", c.season(), i % 4);
+            Check.equal("33 new season", c.passSeason(), (i + 1) % 4);
+        }
+    }
+
+    private static void promise34And35Minutes() {
+        HedgeCommittee c = withHedges();
+        int sum = 0;
+        for (int i = 0; i < 7; i++) {
+            int motion = c.propose(5, 3 + i);
+            Check.equal("34 carried", c.vote(motion), 'c');
+            sum += 3 + i;
+            Check.equal("35 adopted", c.adoptedWeight(), sum);
+            if (i != 2) {
+                c.passSeason();
+            }
+        }
+        int[] due = {2, 2, 2, 1};
+        for (int season = 0; season < 4; season++) {
+            Check.equal("34 minutes of " + season, c.minutesIn(season), due[season]);
+        }
+        for (int season : new int[] {-1, 4, Integer.MIN_VALUE, Integer.MAX_VALUE}) {
+            Check.thrown("34 no season", ARGUMENT, () -> c.minutesIn(season));
+        }
+    }
+
+    private static void totalIs(HedgeCommittee c, int due) {
+        Check.equal("36 weightTotal", c.weightTotal(), due);
+        Check.equal("37 weightByAccounts", c.weightByAccounts(), due);
+    }
+
+    private static void promise36And37WeightTotals() {
+        HedgeCommittee c = withTrees();
+        totalIs(c, 39);
+        c.vote(4);
+        totalIs(c, 37);
+        c.regrow(0);
+        totalIs(c, 41);
+        c.prune(3, 0);
+        totalIs(c, 37);
+        c.vote(6);
+        totalIs(c, 32);
+        c.vote(2);
+        totalIs(c, 32);
+        Check.equal("36 the weight went to the parent", c.weight(0), 13);
+        Check.equal("36 carried", c.vote(5), 'c');
+        totalIs(c, 27);
+        c.prune(0, 0);
+        totalIs(c, 13);
+        c.undo();
+        totalIs(c, 27);
+        Check.equal("36 carried, the thorns are spent", c.vote(3), 'c');
+        totalIs(c, 27);
+        Check.equal("36 rejected", withRejection().weightTotal(), 2);
+        Check.equal("37 rejected", withRejection().weightByAccounts(), 2);
+    }
+
+    private static HedgeCommittee withRejection() {
+        HedgeCommittee c = withHedges();
+        c.propose(0, 9);
+        c.propose(0, 2);
+        Check.equal("36 rejected", c.vote(0), 'r');
+        return c;
+    }
+
+    private static void promise38MeanLeaves() {
+        Check.thrown("38 no hedges", ARITHMETIC, () -> empty().meanLeaves());
+        HedgeCommittee c = withHedges();
+        Check.equal("38 mean", c.meanLeaves(), 7.0);
+        c.addHedge(8, 0, 0);
+        Check.equal("38 not rounded", c.meanLeaves(), 22.0 / 3.0);
+    }
+
+    private static void promise39CarriedShare() {
+        HedgeCommittee c = withHedges();
+        Check.thrown("39 no vote", ARITHMETIC, c::carriedShare);
+        c.propose(0, 1);
+        c.vote(0);
+        Check.equal("39 rejected", c.carriedShare(), 0.0f);
+        c.propose(5, 1);
+        c.amend(1, 5, 1);
+        c.vote(2);
+        Check.equal("39 carried amendment", c.carriedShare(), 0.5f);
+        c.vote(1);
+        Check.equal("39 carried main motion", c.carriedShare(), 2.0f / 3.0f);
+        c.propose(9, 1);
+        Check.equal("39 vetoed", c.vote(3), 'v');
+        Check.equal("39 vetoed", c.carriedShare(), 0.5f);
+        c.undo();
+        Check.equal("39 undone", c.carriedShare(), 2.0f / 3.0f);
+        c.prune(3, 0);
+        Check.equal("39 pruning is no vote", c.carriedShare(), 2.0f / 3.0f);
+    }
+
+    private static void promise40IsConsistent() {
+        HedgeCommittee c = empty();
+        Check.equal("40 empty", c.isConsistent(), true);
+        Check.equal("40 trees", withTrees().isConsistent(), true);
+        Check.equal("40 full", withMotions(12).isConsistent(), true);
+        Check.equal("40 rejection", withRejection().isConsistent(), true);
+    }
+
+    // ---- programs
+
+    private static void promise41Append() {
+        HedgeCommittee c = empty();
+        for (int i = 1; i <= 60; i++) {
+            Check.equal("41 length", c.append((char) (i * 1000)), i);
+        }
+        Check.thrown("41 full", STATE, () -> c.append('x'));
+        Check.thrown("41 full again", STATE, () -> c.append('\uffff'));
+        Check.thrown("41 no program", ARGUMENT, c::run);
+        Check.equal("41 empty again", c.append('x'), 1);
+    }
+
+    private static void promise42Run() {
+        HedgeCommittee c = empty();
+        type(c, "hedge 99 9 1;main 5 20;amend 0 9 1;amend 01 0 07;season");
+        Check.equal("42 commands", c.run(), 5);
+        Check.equal("42 hedges", c.hedgeCount(), 1);
+        Check.equal("42 leaves", c.leaves(0), 99);
+        Check.equal("42 thorns", c.thorns(0), 9);
+        Check.equal("42 taste", c.leavesInFavour(2), 99);
+        Check.equal("42 line", line(c, 0), "0:5*20(1:9*1(2:0*7))");
+        Check.equal("42 season", c.season(), 1);
+        Check.thrown("42 the buffer is empty", ARGUMENT, c::run);
+        Check.equal("42 error position of nothing", c.errorPosition(), 0);
+        Check.equal("42 undone as one", c.undo(), 0);
+        Check.equal("42 undone as one", c.hedgeCount() + c.motionCount() + c.season(), 0);
+        Check.equal("42 the next id too", c.propose(1, 1), 0);
+
+        HedgeCommittee longest = empty();
+        type(longest, "season;season;season;season;season;season;season;season");
+        Check.equal("42 eight commands", longest.run(), 8);
+        type(longest, "hedge 12 3 4;hedge 12 3 4;hedge 12 3 4;hedge 12 3 4;season;");
+        Check.thrown("42 too long for the buffer", STATE, () -> {
+            type(longest, "season");
+            return 0;
+        });
+        HedgeCommittee sixty = empty();
+        type(sixty, "hedge 12 3 4;hedge 12 3 4;hedge 12 3 4;hedge 12 3 4;main 1 1");
+        Check.equal("42 sixty characters", sixty.run(), 5);
+    }
+
+    private static void promise42RunOfEachCommand() {
+        HedgeCommittee c = withTrees();
+        type(c, "prune 0 1");
+        Check.equal("42 prune", c.run(), 1);
+        Check.equal("42 prune", c.motionCount(), 5);
+        type(c, "regrow 5;vote 7;vote 6");
+        Check.equal("42 regrow and vote", c.run(), 3);
+        Check.equal("42 regrow and vote", c.isTip(5), true);
+        Check.equal("42 thorns are spent", c.thorns(1), 1);
+        type(c, "season;season;season;season;hedge 7 1 2;main 3 4;amend 8 5 6");
+        Check.equal("42 the rest", c.run(), 7);
+        Check.equal("42 the rest", line(c, 8), "8:3*4(9:5*6)");
+        Check.equal("42 thorns in spring", c.thorns(1), 2);
+        Check.equal("42 undo of the last run", c.undo(), 7);
+        Check.equal("42 undo of the last run", c.motionCount(), 4);
+        Check.equal("42 undo of the run before", c.undo(), 6);
+        Check.equal("42 undo of the run before", c.isTip(5), false);
+        Check.equal("42 undo of the first run", c.undo(), 5);
+        Check.equal("42 undo of the first run", c.motionCount(), 7);
+    }
+
+    private static void fails(HedgeCommittee c, String text, int command) {
+        String before = picture(c);
+        Check.equal("42 buffer before " + text, c.append(text.charAt(0)), 1);
+        type(c, text.substring(1));
+        Check.thrown("42 run " + text, UNSUPPORTED, c::run);
+        Check.equal("44 failed command of " + text, c.failedCommand(), command);
+        Check.equal("42 no effect of " + text, picture(c), before);
+    }
+
+    private static void promise42RunThatFails() {
+        HedgeCommittee c = withTrees();
+        fails(c, "hedge 0 1 1", 0);
+        fails(c, "season;main 1 0", 1);
+        fails(c, "main 1 21", 0);
+        fails(c, "main 1 99;season", 0);
+        fails(c, "vote 6;vote 5;vote 5", 2);
+        fails(c, "amend 7 1 1", 0);
+        fails(c, "main 1 1;amend 7 1 1;amend 8 2 21", 2);
+        fails(c, "prune 0 0;prune 1 0", 1);
+        fails(c, "regrow 99", 0);
+        fails(c, "regrow 0;regrow 0;regrow 0;regrow 0;regrow 0;regrow 0", 5);
+        fails(c, "vote 0", 0);
+        Check.equal("42 the next id is as before", c.propose(1, 1), 7);
+        HedgeCommittee bare = withMotions(12);
+        fails(bare, "vote 0", 0);
+        fails(bare, "main 1 1", 0);
+        for (int i = 0; i < 8; i++) {
+            bare.passSeason();
+        }
+        fails(bare, "season;hedge 0 0 0", 1);
+        Check.equal("42 a failure takes nothing of the undo", bare.undo(), 7);
+        for (int i = 6; i >= 0; i--) {
+            Check.equal("42 all eight are there", bare.undo(), i);
+        }
+        Check.equal("42 all eight seasons are undone", bare.season(), 0);
+        Check.equal("42 the motions are there", bare.motionCount(), 12);
+    }
+
+    private static void errorAt(String text, int due) {
+        HedgeCommittee c = empty();
+        type(c, text);
+        Check.thrown("42 run of " + text, ARGUMENT, c::run);
+        Check.equal("43 error position of " + text, c.errorPosition(), due);
+        Check.equal("42 the buffer is empty", c.append('x'), 1);
+    }
+
+    private static void promise43ErrorPosition() {
+        Check.thrown("43 none", ELEMENT, () -> empty().errorPosition());
+        errorAt("", 0);
+        errorAt(" ", 0);
+        errorAt(";", 0);
+        errorAt("x", 0);
+        errorAt("Hedge 1 1 1", 0);
+        errorAt("\u0068\u0665", 1);
+        for (String whole : new String[] {"hedge 12 3 4", "main 1 23", "amend 12 3 45",
+            "prune 12 3", "regrow 12", "vote 12", "season"}) {
+            int least = whole.endsWith("2") || whole.endsWith("3") && whole.startsWith("main")
+                    || whole.startsWith("amend") ? whole.length() - 1 : whole.length();
+            for (int length = 0; length < least; length++) {
+                errorAt(whole.substring(0, length), length);
+                errorAt(whole.substring(0, length) + "!", length);
+                errorAt("season;" + whole.substring(0, length), 7 + length);
+            }
+            errorAt(whole + ";", whole.length() + 1);
+            errorAt(whole + " ", whole.length());
+            errorAt(whole + "0", whole.length());
+            errorAt(whole + ";;", whole.length() + 1);
+            errorAt(whole + "; season", whole.length() + 1);
+        }
+        errorAt("hedge  1 1 1", 6);
+        errorAt("hedge 123 1 1", 8);
+        errorAt("hedge 1 12 1", 9);
+        errorAt("hedge 12 1;", 10);
+        errorAt("main 12 1", 6);
+        errorAt("main 1 1 1", 8);
+        errorAt("amend 1 23 1", 9);
+        errorAt("prune -1 0", 6);
+        errorAt("vote /", 5);
+        errorAt("vote :", 5);
+        errorAt("vote 1/", 6);
+        errorAt("vote 1:", 6);
+        errorAt("season;vote 1,season", 13);
+        errorAt("hedge 12 3 4;hedge 12 3 4;hedge 12 3 4;hedge 12 3 4;season;r", 60);
+        errorAt("hedge 12 3 4;hedge 12 3 4;hedge 12 3 4;hedge 12 3 4;main 1 ;", 59);
+
+        HedgeCommittee c = empty();
+        type(c, "seasonal");
+        Check.thrown("43 stored", ARGUMENT, c::run);
+        type(c, "season");
+        Check.equal("43 a good run", c.run(), 1);
+        Check.equal("43 stays", c.errorPosition(), 6);
+        c.undo();
+        c.save();
+        c.restore();
+        Check.equal("43 stays", c.errorPosition(), 6);
+        type(c, "vote 0");
+        Check.thrown("43 a run that fails", UNSUPPORTED, c::run);
+        Check.equal("43 stays", c.errorPosition(), 6);
+        type(c, "x");
+        Check.thrown("43 replaced", ARGUMENT, c::run);
+        Check.equal("43 replaced", c.errorPosition(), 0);
+    }
+
+    private static void promise44FailedCommand() {
+        HedgeCommittee c = empty();
+        Check.thrown("44 none", ELEMENT, c::failedCommand);
+        type(c, "x");
+        Check.thrown("44 no program", ARGUMENT, c::run);
+        Check.thrown("44 none yet", ELEMENT, c::failedCommand);
+        fails(c, "season;season;vote 0", 2);
+        type(c, "season");
+        c.run();
+        c.undo();
+        c.save();
+        c.restore();
+        Check.equal("44 stays", c.failedCommand(), 2);
+        type(c, "x");
+        Check.thrown("44 no program", ARGUMENT, c::run);
+        Check.equal("44 stays", c.failedCommand(), 2);
+        fails(c, "vote 0", 0);
+    }
+
+    // ---- output
+
+    private static void promise45And46Output() {
+        HedgeCommittee c = withTrees();
+        Check.thrown("46 empty at first", INDEX, () -> c.outputAt(0));
+        Check.equal("45 length", c.writeBranch(0), 33);
+        Check.equal("45 line", line(c, 0), "0:4*10(1:5*6(3:7*8(4:8*2)),2:6*3)");
+        Check.equal("45 a tip", line(c, 2), "2:6*3");
+        Check.equal("46 replaced", Check.outcome(() -> c.outputAt(5)), INDEX.getName());
+        Check.equal("45 another tree", line(c, 5), "5:2*5(6:9*5)");
+        for (int index : new int[] {-1, 12, Integer.MIN_VALUE, Integer.MAX_VALUE}) {
+            Check.thrown("46 index", INDEX, () -> c.outputAt(index));
+        }
+        for (int id : NO_IDS) {
+            Check.thrown("45 no motion", ELEMENT, () -> c.writeBranch(id));
+        }
+        c.undo();
+        c.save();
+        c.restore();
+        Check.equal("46 the line stays", c.outputAt(11), ')');
+        Check.equal("46 the line stays", c.outputAt(0), '5');
+
+        HedgeCommittee example = withMotions(3);
+        example.propose(5, 7);
+        example.amend(3, 1, 2);
+        example.propose(0, 1);
+        example.amend(3, 0, 1);
+        example.amend(6, 9, 3);
+        Check.equal("45 the example", line(example, 3), "3:5*7(4:1*2,6:0*1(7:9*3))");
+
+        HedgeCommittee high = withHedges();
+        for (int i = 0; i < 102; i++) {
+            high.propose(5, 20);
+            high.vote(i);
+        }
+        high.propose(5, 20);
+        for (int i = 0; i < 60; i++) {
+            high.amend(102, 5, 20);
+            high.vote(103 + i);
+        }
+        Check.equal("45 long numbers", line(high, 102), "102:5*1220");
+    }
+
+    // ---- undo and snapshot
+
+    private static void promise47Undo() {
+        HedgeCommittee c = empty();
+        Check.thrown("47 none", STATE, c::undo);
+        for (int i = 0; i < 10; i++) {
+            c.propose(0, 1 + i);
+        }
+        for (int left = 7; left >= 0; left--) {
+            Check.equal("47 left", c.undo(), left);
+            Check.equal("47 motions", c.motionCount(), 2 + left);
+        }
+        Check.thrown("47 only eight", STATE, c::undo);
+        Check.equal("47 nothing changed", c.motionCount(), 2);
+        Check.equal("47 the id is given again", c.propose(3, 3), 2);
+        Check.equal("47 weight", c.weight(2), 3);
+        for (int i = 0; i < 5; i++) {
+            c.passSeason();
+        }
+        Check.equal("47 left", c.undo(), 5);
+        Check.equal("47 left", c.undo(), 4);
+        Check.equal("47 season", c.season(), 3);
+        Check.equal("47 no change", c.prune(0, 0), 0);
+        Check.equal("47 undone though it changed nothing", c.undo(), 4);
+        Check.equal("47 season", c.season(), 3);
+        for (int i = 0; i < 6; i++) {
+            c.passSeason();
+        }
+        Check.equal("47 at most eight", c.undo(), 7);
+        for (int left = 6; left >= 0; left--) {
+            Check.equal("47 left", c.undo(), left);
+        }
+        Check.equal("47 the oldest of eight", c.season(), 1);
+        Check.thrown("47 no more", STATE, c::undo);
+        c.passSeason();
+        Check.thrown("47 a call that throws", ARGUMENT, () -> c.propose(10, 1));
+        Check.thrown("47 a call that throws", ELEMENT, () -> c.vote(99));
+        Check.equal("47 is not undone", c.undo(), 0);
+        Check.equal("47 season", c.season(), 1);
+    }
+
+    private static void promise47UndoOfEachChange() {
+        HedgeCommittee c = withTrees();
+        String before = picture(c);
+        Check.Call[] changes = {() -> c.addHedge(9, 9, 9), () -> c.propose(1, 1),
+            () -> c.amend(2, 1, 1), () -> c.prune(0, 0), () -> c.regrow(5), () -> c.vote(4),
+            () -> c.vote(6), () -> c.vote(2), c::passSeason,
+            () -> {
+                type(c, "season;vote 6;vote 5;vote 4;main 1 1");
+                return c.run();
+            }};
+        for (int i = 0; i < changes.length; i++) {
+            changes[i].answer();
+            Check.equal("47 change " + i + " differs", picture(c).equals(before), false);
+            Check.equal("47 left", c.undo(), 7);
+            Check.equal("47 change " + i + " is undone", picture(c), before);
+            // A change fills the history again for the next round.
+            c.prune(4, 0);
+        }
+        c.append('x');
+        c.passSeason();
+        c.undo();
+        Check.equal("47 the buffer stays", c.append('y'), 2);
+    }
+
+    private static void promise48And49SaveAndRestore() {
+        HedgeCommittee c = withTrees();
+        Check.thrown("49 none saved", STATE, () -> {
+            c.restore();
+            return 0;
+        });
+        Check.equal("49 nothing changed", c.undo(), 7);
+        String before = picture(c);
+        c.save();
+        c.vote(4);
+        c.passSeason();
+        Check.equal("48 saving is not a changing call", c.undo(), 7);
+        c.propose(1, 1);
+        c.propose(1, 1);
+        c.append('x');
+        c.restore();
+        Check.equal("49 restored", picture(c), before);
+        Check.thrown("49 no undo afterwards", STATE, c::undo);
+        Check.equal("49 the buffer stays", c.append('x'), 2);
+        Check.equal("49 the next id too", c.propose(1, 1), 6);
+        c.vote(4);
+        c.restore();
+        Check.equal("49 stays saved", picture(c), before);
+        c.vote(4);
+        Check.equal("49 undo begins anew", c.undo(), 0);
+        c.vote(2);
+        c.vote(5);
+        String after = picture(c);
+        c.save();
+        c.undo();
+        c.undo();
+        Check.equal("48 undo after save", picture(c), before);
+        c.restore();
+        Check.equal("48 replaces the saved state", picture(c), after);
+        HedgeCommittee fresh = empty();
+        fresh.save();
+        fresh.propose(1, 1);
+        fresh.restore();
+        Check.equal("48 an empty state", fresh.motionCount(), 0);
+    }
+}
