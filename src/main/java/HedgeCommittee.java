@@ -486,7 +486,8 @@ public final class HedgeCommittee {
         }
 
         int difference(int hedge, int tone) {
-            return Math.abs(tastes[hedge] - tone);
+            int difference = tastes[hedge] - tone;
+            return difference < 0 ? -difference : difference;
         }
 
         boolean vetoes(int hedge, int tone) {
@@ -546,13 +547,15 @@ public final class HedgeCommittee {
             return one < other;
         }
 
+        /** Returns the hedge at a rank that is less than the number of hedges. */
         int atRank(int rank) {
+            int found = 0;
             for (int hedge = 0; hedge < count; hedge++) {
                 if (rankOf(hedge) == rank) {
-                    return hedge;
+                    found = hedge;
                 }
             }
-            return NONE;
+            return found;
         }
 
         private int rankOf(int hedge) {

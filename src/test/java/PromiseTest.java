@@ -51,6 +51,7 @@ public final class PromiseTest {
         promise45And46Output();
         promise47Undo();
         promise47UndoOfEachChange();
+        promise47UndoAfterFailures();
         promise48And49SaveAndRestore();
         Check.finish();
     }
@@ -392,6 +393,13 @@ public final class PromiseTest {
             full.addHedge(1, 1, 1);
         }
         Check.equal("9 six", full.hedgeCount(), 6);
+        full.propose(1, 1);
+        Check.equal("12 six", full.hedgeAtRank(5), 5);
+        Check.equal("13 six", full.leavesInFavour(0), 6);
+        Check.equal("38 six", full.meanLeaves(), 1.0);
+        Check.equal("7 six", full.vote(0), 'c');
+        Check.equal("8 six", full.passSeason(), 1);
+        Check.equal("8 six", full.leaves(5), 3);
         Check.thrown("10 no hedge", INDEX, () -> full.leaves(6));
         Check.thrown("11 no hedge", INDEX, () -> full.thorns(6));
     }
@@ -529,6 +537,17 @@ public final class PromiseTest {
         for (int rank : new int[] {-1, 6, 12, Integer.MIN_VALUE, Integer.MAX_VALUE}) {
             Check.thrown("24 rank " + rank, INDEX, () -> c.motionAtRank(rank));
         }
+        HedgeCommittee full = withMotions(12);
+        for (int rank = 0; rank < 12; rank++) {
+            Check.equal("24 of twelve", full.motionAtRank(rank), 11 - rank);
+        }
+        HedgeCommittee even = empty();
+        for (int i = 0; i < 12; i++) {
+            even.propose(9 - i % 10, 7);
+        }
+        for (int rank = 0; rank < 12; rank++) {
+            Check.equal("24 of twelve alike", even.motionAtRank(rank), rank);
+        }
         HedgeCommittee gap = withMotions(3);
         gap.addHedge(1, 0, 0);
         gap.vote(0);
@@ -643,6 +662,13 @@ public final class PromiseTest {
         bestIs(chain, 9);
         chain.amend(3, 0, 20);
         bestIs(chain, 27);
+        HedgeCommittee fork = empty();
+        fork.propose(0, 20);
+        fork.amend(0, 0, 1);
+        fork.amend(0, 0, 1);
+        fork.amend(1, 0, 9);
+        fork.amend(2, 0, 8);
+        bestIs(fork, 37);
         HedgeCommittee star = empty();
         star.propose(0, 20);
         for (int i = 1; i < 12; i++) {
@@ -736,7 +762,9 @@ public final class PromiseTest {
         HedgeCommittee c = withHedges();
         c.propose(0, 9);
         c.propose(0, 2);
+        c.propose(0, 5);
         Check.equal("36 rejected", c.vote(0), 'r');
+        Check.equal("36 rejected", c.vote(2), 'r');
         return c;
     }
 
@@ -828,6 +856,7 @@ public final class PromiseTest {
         Check.equal("42 regrow and vote", c.run(), 3);
         Check.equal("42 regrow and vote", c.isTip(5), true);
         Check.equal("42 thorns are spent", c.thorns(1), 1);
+        Check.equal("42 nothing else is done", c.season(), 0);
         type(c, "season;season;season;season;hedge 7 1 2;main 3 4;amend 8 5 6");
         Check.equal("42 the rest", c.run(), 7);
         Check.equal("42 the rest", line(c, 8), "8:3*4(9:5*6)");
@@ -866,16 +895,6 @@ public final class PromiseTest {
         HedgeCommittee bare = withMotions(12);
         fails(bare, "vote 0", 0);
         fails(bare, "main 1 1", 0);
-        for (int i = 0; i < 8; i++) {
-            bare.passSeason();
-        }
-        fails(bare, "season;hedge 0 0 0", 1);
-        Check.equal("42 a failure takes nothing of the undo", bare.undo(), 7);
-        for (int i = 6; i >= 0; i--) {
-            Check.equal("42 all eight are there", bare.undo(), i);
-        }
-        Check.equal("42 all eight seasons are undone", bare.season(), 0);
-        Check.equal("42 the motions are there", bare.motionCount(), 12);
     }
 
     private static void errorAt(String text, int due) {
@@ -924,6 +943,9 @@ public final class PromiseTest {
         errorAt("season;vote 1,season", 13);
         errorAt("hedge 12 3 4;hedge 12 3 4;hedge 12 3 4;hedge 12 3 4;season;r", 60);
         errorAt("hedge 12 3 4;hedge 12 3 4;hedge 12 3 4;hedge 12 3 4;main 1 ;", 59);
+        errorAt("hedge 12 3 4;hedge 12 3 4;hedge 12 3 4;hedge 12 3 4;vote 12;", 60);
+        errorAt("hedge 12 3 4;hedge 12 3 4;hedge 12 3 4;hedge 12 3 4;amend 1 ", 60);
+        errorAt("hedge 12 3 4;hedge 12 3 4;hedge 12 3 4;hedge 12 3 4;regrow  ", 59);
 
         HedgeCommittee c = empty();
         type(c, "seasonal");
@@ -992,6 +1014,23 @@ public final class PromiseTest {
         example.amend(6, 9, 3);
         Check.equal("45 the example", line(example, 3), "3:5*7(4:1*2,6:0*1(7:9*3))");
 
+        HedgeCommittee chain = empty();
+        StringBuilder due = new StringBuilder("0:1*2");
+        chain.propose(1, 2);
+        for (int i = 1; i < 12; i++) {
+            chain.amend(i - 1, 1, 2);
+            due.append('(').append(i).append(":1*2");
+        }
+        Check.equal("45 the deepest branch", line(chain, 0), due + ")))))))))))");
+        HedgeCommittee wide = empty();
+        due.setLength(0);
+        wide.propose(1, 2);
+        for (int i = 1; i < 12; i++) {
+            wide.amend(0, 1, 2);
+            due.append(i == 1 ? "0:1*2(" : ",").append(i).append(":1*2");
+        }
+        Check.equal("45 the widest branch", line(wide, 0), due + ")");
+
         HedgeCommittee high = withHedges();
         for (int i = 0; i < 102; i++) {
             high.propose(5, 20);
@@ -1046,28 +1085,76 @@ public final class PromiseTest {
         Check.equal("47 season", c.season(), 1);
     }
 
-    private static void promise47UndoOfEachChange() {
+    /** With trees, where a tip was carried before, one rejected and one vetoed. */
+    private static HedgeCommittee withVotes() {
         HedgeCommittee c = withTrees();
+        c.propose(0, 7);
+        Check.equal("47 rejected", c.vote(7), 'r');
+        Check.equal("47 carried", c.vote(2), 'c');
+        Check.equal("47 vetoed", c.vote(4), 'v');
+        c.prune(5, 0);
+        c.propose(5, 11);
+        Check.equal("47 adopted", c.vote(8), 'c');
+        c.amend(0, 0, 3);
+        return c;
+    }
+
+    private static int runText(HedgeCommittee c, String text) {
+        type(c, text);
+        return c.run();
+    }
+
+    private static void isUndone(String what, HedgeCommittee c, Check.Call change) {
         String before = picture(c);
-        Check.Call[] changes = {() -> c.addHedge(9, 9, 9), () -> c.propose(1, 1),
-            () -> c.amend(2, 1, 1), () -> c.prune(0, 0), () -> c.regrow(5), () -> c.vote(4),
-            () -> c.vote(6), () -> c.vote(2), c::passSeason,
-            () -> {
-                type(c, "season;vote 6;vote 5;vote 4;main 1 1");
-                return c.run();
-            }};
-        for (int i = 0; i < changes.length; i++) {
-            changes[i].answer();
-            Check.equal("47 change " + i + " differs", picture(c).equals(before), false);
-            Check.equal("47 left", c.undo(), 7);
-            Check.equal("47 change " + i + " is undone", picture(c), before);
-            // A change fills the history again for the next round.
-            c.prune(4, 0);
+        change.answer();
+        Check.equal("47 " + what + " differs", picture(c).equals(before), false);
+        Check.equal("47 left after " + what, c.undo(), 7);
+        Check.equal("47 " + what + " is undone", picture(c), before);
+    }
+
+    private static void promise47UndoOfEachChange() {
+        HedgeCommittee hedge = withVotes();
+        isUndone("addHedge", hedge, () -> hedge.addHedge(9, 9, 9));
+        HedgeCommittee main = withVotes();
+        isUndone("propose", main, () -> main.propose(1, 1));
+        HedgeCommittee amended = withVotes();
+        isUndone("amend", amended, () -> amended.amend(3, 1, 1));
+        HedgeCommittee pruned = withVotes();
+        isUndone("prune", pruned, () -> pruned.prune(0, 0));
+        HedgeCommittee grown = withVotes();
+        isUndone("regrow", grown, () -> grown.regrow(5));
+        HedgeCommittee carried = withVotes();
+        isUndone("vote, carried", carried, () -> carried.vote(5));
+        HedgeCommittee rejected = withVotes();
+        isUndone("vote, rejected", rejected, () -> rejected.vote(9));
+        HedgeCommittee vetoed = withVotes();
+        isUndone("vote, vetoed", vetoed, () -> vetoed.vote(3));
+        HedgeCommittee season = withVotes();
+        isUndone("passSeason", season, season::passSeason);
+        HedgeCommittee program = withVotes();
+        isUndone("run", program, () -> runText(program, "season;vote 9;vote 5;vote 3;main 1 1"));
+        program.append('x');
+        program.passSeason();
+        program.undo();
+        Check.equal("47 the buffer stays", program.append('y'), 2);
+    }
+
+    private static void promise47UndoAfterFailures() {
+        HedgeCommittee c = withTrees();
+        String[] before = new String[9];
+        for (int i = 0; i < before.length; i++) {
+            before[i] = picture(c);
+            c.passSeason();
         }
-        c.append('x');
-        c.passSeason();
-        c.undo();
-        Check.equal("47 the buffer stays", c.append('y'), 2);
+        Check.thrown("47 a call that throws", ARGUMENT, () -> c.propose(10, 1));
+        fails(c, "season;hedge 0 0 0", 1);
+        type(c, "seasons");
+        Check.thrown("47 a run that throws", ARGUMENT, c::run);
+        for (int left = 7; left >= 0; left--) {
+            Check.equal("47 left after failures", c.undo(), left);
+            Check.equal("47 undone after failures", picture(c), before[left + 1]);
+        }
+        Check.thrown("47 only eight", STATE, c::undo);
     }
 
     private static void promise48And49SaveAndRestore() {
@@ -1104,6 +1191,15 @@ public final class PromiseTest {
         Check.equal("48 undo after save", picture(c), before);
         c.restore();
         Check.equal("48 replaces the saved state", picture(c), after);
+        HedgeCommittee taste = empty();
+        taste.propose(5, 1);
+        taste.addHedge(3, 0, 5);
+        taste.save();
+        taste.undo();
+        taste.addHedge(3, 0, 0);
+        Check.equal("49 another taste", taste.leavesInFavour(0), 0);
+        taste.restore();
+        Check.equal("49 the saved taste", taste.leavesInFavour(0), 3);
         HedgeCommittee fresh = empty();
         fresh.save();
         fresh.propose(1, 1);
