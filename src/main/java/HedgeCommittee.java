@@ -221,11 +221,11 @@ public final class HedgeCommittee {
     }
 
     public int bestWorth() {
-        return trees.bestByBranches(state.motions);
+        return (int) trees.bestByBranches(state.motions);
     }
 
     public int bestWorthBySets() {
-        return trees.bestBySets(state.motions);
+        return (int) trees.bestBySets(state.motions);
     }
 
     public int goodSets() {
@@ -879,16 +879,16 @@ public final class HedgeCommittee {
         private final int[] rowOfOther;
         private final int[] heights;
         private final int[] distances;
-        private final int[] with;
-        private final int[] without;
+        private final long[] with;
+        private final long[] without;
 
         Trees() {
             rowOfOne = new int[MAX_MOTIONS];
             rowOfOther = new int[MAX_MOTIONS];
             heights = new int[MAX_MOTIONS];
             distances = new int[MAX_MOTIONS];
-            with = new int[MAX_MOTIONS];
-            without = new int[MAX_MOTIONS];
+            with = new long[MAX_MOTIONS];
+            without = new long[MAX_MOTIONS];
         }
 
         /** Returns the position of the common motion or NONE. */
@@ -979,14 +979,16 @@ public final class HedgeCommittee {
             return farthest;
         }
 
-        int bestByBranches(Motions motions) {
+        // Weights that were added up often can make a worth greater than an int holds: the worths are
+        // long, so that the greatest one is the same however the weights are added.
+        long bestByBranches(Motions motions) {
             Arrays.fill(with, 0);
             Arrays.fill(without, 0);
-            int best = 0;
+            long best = 0;
             for (int at = motions.count - 1; at >= 0; at--) {
                 int above = motions.parents[at];
                 with[at] += motions.weights[at];
-                int bestOfBranch = Math.max(with[at], without[at]);
+                long bestOfBranch = Math.max(with[at], without[at]);
                 if (above >= 0) {
                     with[above] += without[at];
                     without[above] += bestOfBranch;
@@ -997,37 +999,46 @@ public final class HedgeCommittee {
             return best;
         }
 
-        int bestBySets(Motions motions) {
-            int best = 0;
+        long bestBySets(Motions motions) {
+            long best = 0;
             int end = 1 << motions.count;
             for (int set = 0; set < end; set++) {
-                best = Math.max(best, worthIfGood(motions, set));
+                if (isGood(motions, set)) {
+                    best = Math.max(best, worthOf(motions, set));
+                }
             }
             return best;
         }
 
-        /** Returns the worth of a set, whose motions are its bits, or NONE if it is not good. */
-        private static int worthIfGood(Motions motions, int set) {
-            int worth = 0;
+        /** Returns whether a set, whose motions are its bits, has no motion with its parent. */
+        private static boolean isGood(Motions motions, int set) {
+            for (int at = 0; at < motions.count; at++) {
+                int above = motions.parents[at];
+                if (above >= 0 && (set >> at & 1) == 1 && (set >> above & 1) == 1) {
+                    return false;
+                }
+            }
+            return true;
+        }
+
+        private static long worthOf(Motions motions, int set) {
+            long worth = 0;
             for (int at = 0; at < motions.count; at++) {
                 if ((set >> at & 1) == 1) {
-                    int above = motions.parents[at];
-                    if (above >= 0 && (set >> above & 1) == 1) {
-                        return NONE;
-                    }
                     worth += motions.weights[at];
                 }
             }
             return worth;
         }
 
+        // An int holds the number, since twelve motions have no more than 4096 sets.
         int countGoodSets(Motions motions) {
             Arrays.fill(with, 1);
             Arrays.fill(without, 1);
-            int sets = 1;
+            long sets = 1;
             for (int at = motions.count - 1; at >= 0; at--) {
                 int above = motions.parents[at];
-                int setsOfBranch = with[at] + without[at];
+                long setsOfBranch = with[at] + without[at];
                 if (above >= 0) {
                     with[above] *= without[at];
                     without[above] *= setsOfBranch;
@@ -1035,7 +1046,7 @@ public final class HedgeCommittee {
                     sets *= setsOfBranch;
                 }
             }
-            return sets;
+            return (int) sets;
         }
 
         boolean agreeOnPaths(Motions motions) {

@@ -312,7 +312,7 @@ final class Model {
     int motionAtRank(int rank) {
         demand(rank >= 0 && rank < w.motions.size(), new IndexOutOfBoundsException());
         List<Integer> order = new ArrayList<>(w.motions.keySet());
-        order.sort((a, b) -> weight(a) != weight(b) ? weight(b) - weight(a)
+        order.sort((a, b) -> weight(a) != weight(b) ? Integer.compare(weight(b), weight(a))
                 : depth(a) != depth(b) ? depth(a) - depth(b) : a - b);
         return order.get(rank);
     }
@@ -376,16 +376,16 @@ final class Model {
         return longest;
     }
 
-    /** The worths of all good sets. */
-    private List<Integer> worths() {
+    /** The worths of all good sets, which an int may be too small for. */
+    private List<Long> worths() {
         List<Motion> all = new ArrayList<>(w.motions.values());
-        List<Integer> worths = new ArrayList<>();
+        List<Long> worths = new ArrayList<>();
         collect(all, 0, new ArrayList<>(), 0, worths);
         return worths;
     }
 
-    private void collect(List<Motion> all, int at, List<Integer> chosen, int worth,
-            List<Integer> worths) {
+    private void collect(List<Motion> all, int at, List<Integer> chosen, long worth,
+            List<Long> worths) {
         if (at == all.size()) {
             worths.add(worth);
             return;
@@ -400,7 +400,7 @@ final class Model {
     }
 
     int bestWorth() {
-        return worths().stream().max(Integer::compare).orElseThrow();
+        return worths().stream().max(Long::compare).orElseThrow().intValue();
     }
 
     int goodSets() {

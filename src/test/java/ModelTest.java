@@ -60,11 +60,14 @@ public final class ModelTest {
     }
 
     private void play() {
-        // Some runs begin full, so that the long trees and the limits are met too.
+        // Some runs begin full, so that the long trees and the limits are met too; and some with
+        // weights about the greatest int, so that sums of weights go beyond it.
         if (run % 3 == 0) {
             for (int i = 0; i < 12; i++) {
                 change(run % 2 == 0 ? 0 : 2);
             }
+        } else if (run % 5 == 0) {
+            growGreat();
         }
         while (calls < CALLS - 110) {
             int kind = draw(20);
@@ -88,6 +91,21 @@ public final class ModelTest {
             }
             if (draw(60) == 0) {
                 undoAll();
+            }
+        }
+    }
+
+    /** Proposes two motions and lets each grow by half, and half again, by carried amendments. */
+    private void growGreat() {
+        same("addHedge(99, 0, 5)", () -> program.addHedge(99, 0, 5), () -> model.addHedge(99, 0, 5));
+        for (int i = 0; i < 2; i++) {
+            same("propose(4, 20)", () -> program.propose(4, 20), () -> model.propose(4, 20));
+            int top = model.motionAt(i);
+            int rounds = drawIn(43, 47);
+            for (int round = 0; round < rounds; round++) {
+                same("regrow(" + top + ")", () -> program.regrow(top), () -> model.regrow(top));
+                int tip = model.lastTip(top);
+                same("vote(" + tip + ")", () -> program.vote(tip), () -> model.vote(tip));
             }
         }
     }

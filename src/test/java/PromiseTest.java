@@ -35,6 +35,7 @@ public final class PromiseTest {
         promise27PathSize();
         promise28And29LongestPath();
         promise30And31BestWorth();
+        promise30And31BestWorthOfGreatWeights();
         promise32GoodSets();
         promise33Season();
         promise34And35Minutes();
@@ -93,6 +94,40 @@ public final class PromiseTest {
         HedgeCommittee c = empty();
         for (int i = 0; i < count; i++) {
             c.propose(i % 10, 1 + i);
+        }
+        return c;
+    }
+
+    /** Lets a tip grow by half and half again: regrow, and vote for what has grown. */
+    private static void grow(HedgeCommittee c, int motion, int rounds) {
+        for (int i = 0; i < rounds; i++) {
+            Check.equal("carried", c.vote(c.regrow(motion)), 'c');
+        }
+    }
+
+    /** An int holds each weight of the chain 0 - 47 - 48, but not all sums of them. */
+    private static HedgeCommittee withGreatChain() {
+        HedgeCommittee c = empty();
+        c.addHedge(99, 0, 5);
+        c.propose(4, 20);
+        c.amend(0, 4, 3);
+        c.vote(1);
+        grow(c, 0, 45);
+        c.regrow(0);
+        c.regrow(0);
+        return c;
+    }
+
+    /** Two motions, which weigh 1651629034 each: main motions, or amendments of a small one. */
+    private static HedgeCommittee withGreatPair(boolean isAmending) {
+        HedgeCommittee c = empty();
+        c.addHedge(99, 0, 5);
+        if (isAmending) {
+            c.propose(4, 7);
+        }
+        for (int i = 0; i < 2; i++) {
+            int motion = isAmending ? c.amend(0, 4, 20) : c.propose(4, 20);
+            grow(c, motion, 45);
         }
         return c;
     }
@@ -552,6 +587,11 @@ public final class PromiseTest {
         gap.addHedge(1, 0, 0);
         gap.vote(0);
         Check.equal("24 an id and not a position", gap.motionAtRank(0), 2);
+        HedgeCommittee great = withGreatPair(true);
+        int[] greatDue = {1, 47, 0};
+        for (int rank = 0; rank < greatDue.length; rank++) {
+            Check.equal("24 great weights", great.motionAtRank(rank), greatDue[rank]);
+        }
     }
 
     // ---- queries about trees
@@ -678,6 +718,24 @@ public final class PromiseTest {
         bestIs(withMotions(12), 78);
     }
 
+    private static void promise30And31BestWorthOfGreatWeights() {
+        HedgeCommittee chain = withGreatChain();
+        Check.equal("30 great weight", chain.weight(0), 1886857894);
+        bestIs(chain, (int) (1886857894L + 471714473L));
+        bestIs(withGreatPair(false), (int) (2 * 1651629034L));
+        bestIs(withGreatPair(true), (int) (2 * 1651629034L));
+        chain.vote(48);
+        bestIs(chain, 1886857894);
+        chain.vote(47);
+        Check.equal("31 a weight beyond an int", chain.bestWorthBySets(), chain.bestWorth());
+        HedgeCommittee full = withGreatPair(false);
+        for (int i = 0; i < 5; i++) {
+            full.regrow(0);
+            full.regrow(46);
+        }
+        Check.equal("31 great trees", full.bestWorthBySets(), full.bestWorth());
+    }
+
     private static void promise32GoodSets() {
         Check.equal("32 the empty set", empty().goodSets(), 1);
         Check.equal("32 one motion", withMotions(1).goodSets(), 2);
@@ -756,6 +814,8 @@ public final class PromiseTest {
         totalIs(c, 27);
         Check.equal("36 rejected", withRejection().weightTotal(), 2);
         Check.equal("37 rejected", withRejection().weightByAccounts(), 2);
+        totalIs(withGreatChain(), (int) (1886857894L + 943428947L + 471714473L));
+        totalIs(withGreatPair(true), (int) (7 + 2 * 1651629034L));
     }
 
     private static HedgeCommittee withRejection() {
@@ -803,6 +863,15 @@ public final class PromiseTest {
         Check.equal("40 trees", withTrees().isConsistent(), true);
         Check.equal("40 full", withMotions(12).isConsistent(), true);
         Check.equal("40 rejection", withRejection().isConsistent(), true);
+        Check.equal("40 great pair", withGreatPair(false).isConsistent(), true);
+        Check.equal("40 great amendments", withGreatPair(true).isConsistent(), true);
+        HedgeCommittee great = withGreatChain();
+        Check.equal("40 great chain", great.isConsistent(), true);
+        for (int i = 0; i < 80; i++) {
+            great.vote(great.lastTip(0));
+            great.regrow(0);
+            Check.equal("40 greater than an int", great.isConsistent(), true);
+        }
     }
 
     // ---- programs
