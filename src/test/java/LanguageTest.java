@@ -7,6 +7,8 @@ import java.nio.file.Files;
 import java.nio.file.Paths;
 import java.util.Arrays;
 import java.util.HashSet;
+import java.util.LinkedHashMap;
+import java.util.Map;
 import java.util.Set;
 import java.util.TreeSet;
 import java.util.regex.Matcher;
@@ -44,6 +46,20 @@ public final class LanguageTest {
         "int writeBranch int " + N, "char outputAt int " + I, "int undo " + S, "void save",
         "void restore " + S};
 
+    /** What the interface says ahead of calls, and the calls that stand behind it. */
+    private static final String[] HEADINGS = {
+        "changes: addHedge propose amend prune regrow vote passSeason",
+        "queries about hedges: hedgeCount leaves thorns hedgeAtRank leavesInFavour wouldVeto",
+        "queries about motions: motionCount motionAt tone weight parent depth isTip branchSize"
+            + " lastTip motionAtRank",
+        "queries about trees: commonMotion commonMotionByRows pathSize longestPath"
+            + " longestPathBySweeps bestWorth bestWorthBySets goodSets",
+        "totals: season minutesIn adoptedWeight weightTotal weightByAccounts meanLeaves"
+            + " carriedShare isConsistent",
+        "programs: append run errorPosition failedCommand",
+        "output: writeBranch outputAt",
+        "undo and snapshot: undo save restore"};
+
     private static final String[] RULED_OUT = {"->", "::", "\\bfinally\\b", "\\bsynchronized\\b",
         "\\bassert\\b", "Exact\\(", "\\bextends \\w*Exception", "catch \\((Runtime)?Exception\\b",
         "catch \\((Throwable|Error)\\b", "catch \\((\\w*IndexOutOfBounds|NullPointer|Arithmetic"
@@ -58,7 +74,9 @@ public final class LanguageTest {
     public static void main(String[] args) throws IOException {
         faceIsTheDocuments();
         classesInsideAreClosed();
-        sourceKeepsToTheLanguage(new String(Files.readAllBytes(Paths.get(SOURCE))));
+        String source = new String(Files.readAllBytes(Paths.get(SOURCE)));
+        headingsStandAheadOfTheirCalls(source);
+        sourceKeepsToTheLanguage(source);
         Check.finish();
     }
 
@@ -121,6 +139,29 @@ public final class LanguageTest {
                 fields += isStatic ? 0 : 1;
             }
             Check.equal("at most twenty fields " + type, fields <= 20, true);
+        }
+    }
+
+    /** "Ahead of the calls .. the interface says: ---- .." */
+    private static void headingsStandAheadOfTheirCalls(String source) {
+        Map<String, StringBuilder> calls = new LinkedHashMap<>();
+        StringBuilder behind = new StringBuilder();
+        for (String line : source.split("\n")) {
+            Matcher heading = Pattern.compile(" {4}// ---- (.*)").matcher(line);
+            Matcher call = Pattern.compile(" {4}public \\w+ (\\w+)\\(.*").matcher(line);
+            if (heading.matches()) {
+                behind = new StringBuilder(heading.group(1)).append(':');
+                calls.put(heading.group(1), behind);
+            } else if (call.matches()) {
+                behind.append(' ').append(call.group(1));
+            }
+        }
+        for (String due : HEADINGS) {
+            String heading = due.substring(0, due.indexOf(':'));
+            Check.equal("calls behind ---- " + heading, "" + calls.remove(heading), due);
+        }
+        for (StringBuilder more : calls.values()) {
+            Check.equal("no calls behind ---- " + more, more.charAt(more.length() - 1), ':');
         }
     }
 

@@ -24,22 +24,36 @@ public final class PromiseTest {
         promise06Regrow();
         promise07Vote();
         promise08PassSeason();
-        promise09To11Hedges();
+        promise02EachOfSixHedgesTakesPart();
+        promise09HedgeCount();
+        promise10Leaves();
+        promise11Thorns();
         promise12HedgeAtRank();
         promise13LeavesInFavour();
         promise14WouldVeto();
-        promise15And16MotionsByPosition();
-        promise17To23QueriesAboutMotions();
+        promise15MotionCount();
+        promise16MotionAt();
+        promise17Tone();
+        promise18Weight();
+        promise19Parent();
+        promise20Depth();
+        promise21IsTip();
+        promise22BranchSize();
+        promise23LastTip();
         promise24MotionAtRank();
-        promise25And26CommonMotion();
+        promise25CommonMotion();
+        promise26CommonMotionByRows();
         promise27PathSize();
-        promise28And29LongestPath();
-        promise30And31BestWorth();
-        promise30And31BestWorthOfGreatWeights();
+        promise28LongestPath();
+        promise29LongestPathBySweeps();
+        promise30BestWorth();
+        promise31BestWorthBySets();
         promise32GoodSets();
         promise33Season();
-        promise34And35Minutes();
-        promise36And37WeightTotals();
+        promise34MinutesIn();
+        promise35AdoptedWeight();
+        promise36WeightTotal();
+        promise37WeightByAccounts();
         promise38MeanLeaves();
         promise39CarriedShare();
         promise40IsConsistent();
@@ -49,11 +63,15 @@ public final class PromiseTest {
         promise42RunThatFails();
         promise43ErrorPosition();
         promise44FailedCommand();
-        promise45And46Output();
+        promise45WriteBranch();
+        promise45WriteBranchOfManyMotions();
+        promise46OutputAt();
         promise47Undo();
         promise47UndoOfEachChange();
         promise47UndoAfterFailures();
-        promise48And49SaveAndRestore();
+        promise48Save();
+        promise49Restore();
+        promise49RestoreOfEachPart();
         Check.finish();
     }
 
@@ -411,32 +429,69 @@ public final class PromiseTest {
 
     // ---- queries about hedges
 
-    private static void promise09To11Hedges() {
+    private static void promise02EachOfSixHedgesTakesPart() {
+        HedgeCommittee full = empty();
+        for (int i = 0; i < 6; i++) {
+            full.addHedge(1, 1, 1);
+        }
+        full.propose(1, 1);
+        Check.equal("2 rank of the sixth", full.hedgeAtRank(5), 5);
+        Check.equal("2 six in favour", full.leavesInFavour(0), 6);
+        Check.equal("2 mean of six", full.meanLeaves(), 1.0);
+        Check.equal("2 vote of six", full.vote(0), 'c');
+        Check.equal("2 season of six", full.passSeason(), 1);
+        Check.equal("2 leaves of the sixth", full.leaves(5), 3);
+    }
+
+    private static void promise09HedgeCount() {
+        HedgeCommittee c = empty();
+        for (int i = 0; i < 6; i++) {
+            Check.equal("9 before", c.hedgeCount(), i);
+            c.addHedge(1, 1, 1);
+        }
+        Check.equal("9 six", c.hedgeCount(), 6);
+        c.undo();
+        Check.equal("9 after undo", c.hedgeCount(), 5);
+        Check.equal("9 two", withHedges().hedgeCount(), 2);
+    }
+
+    private static void promise10Leaves() {
         HedgeCommittee c = withHedges();
-        Check.equal("9 hedgeCount", c.hedgeCount(), 2);
         Check.equal("10 leaves", c.leaves(0), 10);
         Check.equal("10 leaves", c.leaves(1), 4);
+        for (int hedge : NO_HEDGES) {
+            Check.thrown("10 no hedge", INDEX, () -> c.leaves(hedge));
+        }
+        c.passSeason();
+        Check.equal("10 leaves in summer", c.leaves(1), 6);
+        Check.thrown("10 none at all", INDEX, () -> empty().leaves(0));
+        HedgeCommittee full = withSixHedges();
+        Check.equal("10 the sixth", full.leaves(5), 15);
+        Check.thrown("10 behind the sixth", INDEX, () -> full.leaves(6));
+    }
+
+    private static void promise11Thorns() {
+        HedgeCommittee c = withHedges();
         Check.equal("11 thorns", c.thorns(0), 1);
         Check.equal("11 thorns", c.thorns(1), 2);
         for (int hedge : NO_HEDGES) {
-            Check.thrown("10 no hedge", INDEX, () -> c.leaves(hedge));
             Check.thrown("11 no hedge", INDEX, () -> c.thorns(hedge));
         }
-        HedgeCommittee full = empty();
+        c.vote(c.propose(9, 1));
+        Check.equal("11 thorns after a veto", c.thorns(1), 1);
+        Check.thrown("11 none at all", INDEX, () -> empty().thorns(0));
+        HedgeCommittee full = withSixHedges();
+        Check.equal("11 the sixth", full.thorns(5), 5);
+        Check.thrown("11 behind the sixth", INDEX, () -> full.thorns(6));
+    }
+
+    /** Hedge i has 10 + i leaves, i thorns and the taste i. */
+    private static HedgeCommittee withSixHedges() {
+        HedgeCommittee c = empty();
         for (int i = 0; i < 6; i++) {
-            Check.equal("9 before", full.hedgeCount(), i);
-            full.addHedge(1, 1, 1);
+            c.addHedge(10 + i, i, i);
         }
-        Check.equal("9 six", full.hedgeCount(), 6);
-        full.propose(1, 1);
-        Check.equal("12 six", full.hedgeAtRank(5), 5);
-        Check.equal("13 six", full.leavesInFavour(0), 6);
-        Check.equal("38 six", full.meanLeaves(), 1.0);
-        Check.equal("7 six", full.vote(0), 'c');
-        Check.equal("8 six", full.passSeason(), 1);
-        Check.equal("8 six", full.leaves(5), 3);
-        Check.thrown("10 no hedge", INDEX, () -> full.leaves(6));
-        Check.thrown("11 no hedge", INDEX, () -> full.thorns(6));
+        return c;
     }
 
     private static void promise12HedgeAtRank() {
@@ -499,11 +554,22 @@ public final class PromiseTest {
 
     // ---- queries about motions
 
-    private static void promise15And16MotionsByPosition() {
+    private static void promise15MotionCount() {
+        Check.equal("15 none", empty().motionCount(), 0);
         HedgeCommittee c = withTrees();
         Check.equal("15 count", c.motionCount(), 7);
         c.prune(1, 0);
-        Check.equal("15 count", c.motionCount(), 5);
+        Check.equal("15 after pruning", c.motionCount(), 5);
+        c.vote(2);
+        Check.equal("15 after a vote", c.motionCount(), 4);
+        c.regrow(0);
+        Check.equal("15 after regrowing", c.motionCount(), 5);
+        Check.equal("15 twelve", withMotions(12).motionCount(), 12);
+    }
+
+    private static void promise16MotionAt() {
+        HedgeCommittee c = withTrees();
+        c.prune(1, 0);
         int[] due = {0, 1, 2, 5, 6};
         for (int position = 0; position < due.length; position++) {
             Check.equal("16 position " + position, c.motionAt(position), due[position]);
@@ -512,48 +578,82 @@ public final class PromiseTest {
             Check.thrown("16 position", INDEX, () -> c.motionAt(position));
         }
         HedgeCommittee full = withMotions(12);
-        Check.equal("15 twelve", full.motionCount(), 12);
         Check.equal("16 last", full.motionAt(11), 11);
         Check.thrown("16 behind the last", INDEX, () -> full.motionAt(12));
         Check.thrown("16 none", INDEX, () -> empty().motionAt(0));
     }
 
-    private static void promise17To23QueriesAboutMotions() {
+    private interface Query {
+        Object of(HedgeCommittee c, int motion);
+    }
+
+    /** What a query answers of the motions 0 to 6 of the trees, and that it refuses other ids. */
+    private static void ofTrees(String what, Query query, Object... due) {
         HedgeCommittee c = withTrees();
-        int[] tones = {4, 5, 6, 7, 8, 2, 9};
-        int[] weights = {10, 6, 3, 8, 2, 5, 5};
-        int[] parents = {-1, 0, 0, 1, 3, -1, 5};
-        int[] depths = {0, 1, 1, 2, 3, 0, 1};
-        boolean[] tips = {false, false, true, false, true, false, true};
-        int[] sizes = {5, 3, 1, 2, 1, 2, 1};
-        int[] lastTips = {4, 4, 2, 4, 4, 6, 6};
-        for (int id = 0; id < tones.length; id++) {
+        for (int id = 0; id < due.length; id++) {
             int motion = id;
-            Check.equal("17 tone", c.tone(id), tones[id]);
-            Check.equal("18 weight", c.weight(id), weights[id]);
-            Object above = parents[id] < 0 ? ELEMENT.getName() : (Object) parents[id];
-            Check.equal("19 parent", Check.outcome(() -> c.parent(motion)), above);
-            Check.equal("20 depth", c.depth(id), depths[id]);
-            Check.equal("21 isTip", c.isTip(id), tips[id]);
-            Check.equal("22 branchSize", c.branchSize(id), sizes[id]);
-            Check.equal("23 lastTip", c.lastTip(id), lastTips[id]);
+            Check.equal(what + " of " + id, Check.outcome(() -> query.of(c, motion)), due[id]);
         }
+        for (int id : NO_IDS) {
+            Check.thrown(what + " of no motion", ELEMENT, () -> query.of(c, id));
+        }
+        c.vote(2);
+        Check.thrown(what + " of a motion that is gone", ELEMENT, () -> query.of(c, 2));
+        Check.equal(what + " behind the gap", query.of(c, 6), due[6]);
+        Check.thrown(what + " without motions", ELEMENT, () -> query.of(empty(), 0));
+    }
+
+    private static void promise17Tone() {
+        ofTrees("17 tone", HedgeCommittee::tone, 4, 5, 6, 7, 8, 2, 9);
+        HedgeCommittee c = withTrees();
+        Check.equal("17 of a regrown motion", c.tone(c.regrow(0)), 9);
+    }
+
+    private static void promise18Weight() {
+        ofTrees("18 weight", HedgeCommittee::weight, 10, 6, 3, 8, 2, 5, 5);
+        HedgeCommittee c = withTrees();
+        Check.equal("18 a carried amendment", c.vote(2), 'c');
+        Check.equal("18 of its parent", c.weight(0), 13);
+    }
+
+    private static void promise19Parent() {
+        String none = ELEMENT.getName();
+        ofTrees("19 parent", HedgeCommittee::parent, none, 0, 0, 1, 3, none, 5);
+    }
+
+    private static void promise20Depth() {
+        ofTrees("20 depth", HedgeCommittee::depth, 0, 1, 1, 2, 3, 0, 1);
+    }
+
+    private static void promise21IsTip() {
+        ofTrees("21 isTip", HedgeCommittee::isTip, false, false, true, false, true, false, true);
+        HedgeCommittee c = withTrees();
         c.vote(4);
         Check.equal("21 a tip again", c.isTip(3), true);
+        c.amend(2, 0, 1);
+        Check.equal("21 a tip no more", c.isTip(2), false);
+    }
+
+    private static void promise22BranchSize() {
+        ofTrees("22 branchSize", HedgeCommittee::branchSize, 5, 3, 1, 2, 1, 2, 1);
+        HedgeCommittee c = withTrees();
+        c.vote(4);
+        Check.equal("22 after a vote", c.branchSize(0), 4);
+    }
+
+    private static void promise23LastTip() {
+        ofTrees("23 lastTip", HedgeCommittee::lastTip, 4, 4, 2, 4, 4, 6, 6);
+        HedgeCommittee c = withTrees();
+        c.vote(4);
         Check.equal("23 the last tip is the greatest, not the deepest", c.lastTip(0), 3);
         c.amend(2, 0, 1);
         Check.equal("23 lastTip", c.lastTip(0), 7);
         Check.equal("23 lastTip of a branch beside it", c.lastTip(1), 3);
         c.vote(7);
-        for (int id : NO_IDS) {
-            Check.thrown("17 no motion", ELEMENT, () -> c.tone(id));
-            Check.thrown("18 no motion", ELEMENT, () -> c.weight(id));
-            Check.thrown("19 no motion", ELEMENT, () -> c.parent(id));
-            Check.thrown("20 no motion", ELEMENT, () -> c.depth(id));
-            Check.thrown("21 no motion", ELEMENT, () -> c.isTip(id));
-            Check.thrown("22 no motion", ELEMENT, () -> c.branchSize(id));
-            Check.thrown("23 no motion", ELEMENT, () -> c.lastTip(id));
-        }
+        c.vote(3);
+        Check.equal("23 a tip before the greatest id", c.lastTip(0), 2);
+        c.vote(2);
+        Check.equal("23 the only tip", c.lastTip(0), 1);
     }
 
     private static void promise24MotionAtRank() {
@@ -596,40 +696,46 @@ public final class PromiseTest {
 
     // ---- queries about trees
 
-    private static void commonIs(HedgeCommittee c, int one, int other, Object due) {
-        Check.equal("25 common of " + one + " and " + other,
-                Check.outcome(() -> c.commonMotion(one, other)), due);
-        Check.equal("25 common of " + other + " and " + one,
-                Check.outcome(() -> c.commonMotion(other, one)), due);
-        Check.equal("26 common of " + one + " and " + other,
-                Check.outcome(() -> c.commonMotionByRows(one, other)), due);
-        Check.equal("26 common of " + other + " and " + one,
-                Check.outcome(() -> c.commonMotionByRows(other, one)), due);
+    private interface QueryOfTwo {
+        Object of(HedgeCommittee c, int one, int other);
     }
 
-    private static void promise25And26CommonMotion() {
+    private static void ofTwo(String what, QueryOfTwo query, HedgeCommittee c, int one, int other,
+            Object due) {
+        Check.equal(what + " of " + one + " and " + other,
+                Check.outcome(() -> query.of(c, one, other)), due);
+        Check.equal(what + " of " + other + " and " + one,
+                Check.outcome(() -> query.of(c, other, one)), due);
+    }
+
+    private static void commonOfTrees(String what, QueryOfTwo query) {
         HedgeCommittee c = withTrees();
-        commonIs(c, 4, 2, 0);
-        commonIs(c, 3, 4, 3);
-        commonIs(c, 4, 0, 0);
-        commonIs(c, 1, 2, 0);
-        commonIs(c, 6, 6, 6);
-        commonIs(c, 5, 5, 5);
-        commonIs(c, 4, 6, UNSUPPORTED.getName());
-        commonIs(c, 2, 6, UNSUPPORTED.getName());
-        commonIs(c, 0, 5, UNSUPPORTED.getName());
-        commonIs(c, 4, 5, UNSUPPORTED.getName());
+        int[][] due = {{4, 2, 0}, {3, 4, 3}, {4, 0, 0}, {1, 2, 0}, {6, 6, 6}, {5, 5, 5}, {5, 6, 5}};
+        for (int[] d : due) {
+            ofTwo(what, query, c, d[0], d[1], d[2]);
+        }
+        for (int[] pair : new int[][] {{4, 6}, {2, 6}, {0, 5}, {4, 5}, {0, 6}}) {
+            ofTwo(what, query, c, pair[0], pair[1], UNSUPPORTED.getName());
+        }
         for (int id : NO_IDS) {
-            commonIs(c, 0, id, ELEMENT.getName());
-            commonIs(c, id, id, ELEMENT.getName());
+            ofTwo(what, query, c, 0, id, ELEMENT.getName());
+            ofTwo(what, query, c, id, id, ELEMENT.getName());
         }
         c.amend(1, 0, 1);
         c.amend(7, 0, 1);
-        commonIs(c, 4, 8, 1);
-        commonIs(c, 4, 7, 1);
+        ofTwo(what, query, c, 4, 8, 1);
+        ofTwo(what, query, c, 4, 7, 1);
         c.vote(2);
-        commonIs(c, 4, 8, 1);
-        commonIs(c, 5, 6, 5);
+        ofTwo(what, query, c, 4, 8, 1);
+        ofTwo(what, query, c, 5, 6, 5);
+    }
+
+    private static void promise25CommonMotion() {
+        commonOfTrees("25 commonMotion", HedgeCommittee::commonMotion);
+    }
+
+    private static void promise26CommonMotionByRows() {
+        commonOfTrees("26 commonMotionByRows", HedgeCommittee::commonMotionByRows);
     }
 
     private static void promise27PathSize() {
@@ -647,27 +753,15 @@ public final class PromiseTest {
         }
     }
 
-    private static void longestIs(HedgeCommittee c, int motion, int due) {
-        Check.equal("28 longest of " + motion, c.longestPath(motion), due);
-        Check.equal("29 longest of " + motion, c.longestPathBySweeps(motion), due);
-    }
-
-    private static void promise28And29LongestPath() {
+    private static void longestOfTrees(String what, Query query) {
+        ofTrees(what, query, 5, 3, 1, 2, 1, 2, 1);
         HedgeCommittee c = withTrees();
-        int[] due = {5, 3, 1, 2, 1, 2, 1};
-        for (int id = 0; id < due.length; id++) {
-            longestIs(c, id, due[id]);
-        }
-        for (int id : NO_IDS) {
-            Check.thrown("28 no motion", ELEMENT, () -> c.longestPath(id));
-            Check.thrown("29 no motion", ELEMENT, () -> c.longestPathBySweeps(id));
-        }
         c.amend(1, 0, 1);
         c.amend(7, 0, 1);
         c.amend(8, 0, 1);
-        longestIs(c, 0, 6);
-        longestIs(c, 1, 6);
-        longestIs(c, 7, 3);
+        Check.equal(what + " beside the top", query.of(c, 0), 6);
+        Check.equal(what + " through the top", query.of(c, 1), 6);
+        Check.equal(what + " of a chain", query.of(c, 7), 3);
 
         HedgeCommittee chain = empty();
         chain.propose(0, 1);
@@ -675,57 +769,75 @@ public final class PromiseTest {
             chain.amend(i - 1, 0, 1);
         }
         for (int i = 0; i < 12; i++) {
-            longestIs(chain, i, 12 - i);
+            Check.equal(what + " of twelve", query.of(chain, i), 12 - i);
         }
     }
 
-    private static void bestIs(HedgeCommittee c, int due) {
-        Check.equal("30 bestWorth", c.bestWorth(), due);
-        Check.equal("31 bestWorthBySets", c.bestWorthBySets(), due);
+    private static void promise28LongestPath() {
+        longestOfTrees("28 longestPath", HedgeCommittee::longestPath);
     }
 
-    private static void promise30And31BestWorth() {
-        bestIs(empty(), 0);
+    private static void promise29LongestPathBySweeps() {
+        longestOfTrees("29 longestPathBySweeps", HedgeCommittee::longestPathBySweeps);
+    }
+
+    private interface Total {
+        int of(HedgeCommittee c);
+    }
+
+    private static void bestOfTrees(String what, Total best) {
+        Check.equal(what + " of none", best.of(empty()), 0);
         HedgeCommittee c = withTrees();
-        bestIs(c, 23);
+        Check.equal(what + " of two trees", best.of(c), 23);
         c.vote(6);
         c.regrow(5);
-        bestIs(c, 23);
+        Check.equal(what + " of a lighter one", best.of(c), 23);
         HedgeCommittee chain = empty();
         chain.propose(0, 3);
-        bestIs(chain, 3);
-        chain.amend(0, 0, 4);
-        bestIs(chain, 4);
-        chain.amend(1, 0, 4);
-        bestIs(chain, 7);
-        chain.amend(2, 0, 5);
-        bestIs(chain, 9);
-        chain.amend(3, 0, 20);
-        bestIs(chain, 27);
+        Check.equal(what + " of one", best.of(chain), 3);
+        int[] weights = {4, 4, 5, 20};
+        int[] due = {4, 7, 9, 27};
+        for (int i = 0; i < due.length; i++) {
+            chain.amend(i, 0, weights[i]);
+            Check.equal(what + " of a chain", best.of(chain), due[i]);
+        }
         HedgeCommittee fork = empty();
         fork.propose(0, 20);
         fork.amend(0, 0, 1);
         fork.amend(0, 0, 1);
         fork.amend(1, 0, 9);
         fork.amend(2, 0, 8);
-        bestIs(fork, 37);
+        Check.equal(what + " of a fork", best.of(fork), 37);
         HedgeCommittee star = empty();
         star.propose(0, 20);
         for (int i = 1; i < 12; i++) {
             star.amend(0, 0, 2);
         }
-        bestIs(star, 22);
-        bestIs(withMotions(12), 78);
+        Check.equal(what + " of a star", best.of(star), 22);
+        Check.equal(what + " of twelve", best.of(withMotions(12)), 78);
     }
 
-    private static void promise30And31BestWorthOfGreatWeights() {
+    private static void bestOfGreatWeights(String what, Total best) {
         HedgeCommittee chain = withGreatChain();
-        Check.equal("30 great weight", chain.weight(0), 1886857894);
-        bestIs(chain, (int) (1886857894L + 471714473L));
-        bestIs(withGreatPair(false), (int) (2 * 1651629034L));
-        bestIs(withGreatPair(true), (int) (2 * 1651629034L));
+        Check.equal("18 great weight", chain.weight(0), 1886857894);
+        Check.equal(what + " of great weights", best.of(chain), (int) (1886857894L + 471714473L));
+        int ofPair = (int) (2 * 1651629034L);
+        Check.equal(what + " of a great pair", best.of(withGreatPair(false)), ofPair);
+        Check.equal(what + " of great amendments", best.of(withGreatPair(true)), ofPair);
         chain.vote(48);
-        bestIs(chain, 1886857894);
+        Check.equal(what + " of a great one", best.of(chain), 1886857894);
+    }
+
+    private static void promise30BestWorth() {
+        bestOfTrees("30 bestWorth", HedgeCommittee::bestWorth);
+        bestOfGreatWeights("30 bestWorth", HedgeCommittee::bestWorth);
+    }
+
+    private static void promise31BestWorthBySets() {
+        bestOfTrees("31 bestWorthBySets", HedgeCommittee::bestWorthBySets);
+        bestOfGreatWeights("31 bestWorthBySets", HedgeCommittee::bestWorthBySets);
+        HedgeCommittee chain = withGreatChain();
+        chain.vote(48);
         chain.vote(47);
         Check.equal("31 a weight beyond an int", chain.bestWorthBySets(), chain.bestWorth());
         HedgeCommittee full = withGreatPair(false);
@@ -764,58 +876,82 @@ public final class PromiseTest {
         }
     }
 
-    private static void promise34And35Minutes() {
+    private static void promise34MinutesIn() {
         HedgeCommittee c = withHedges();
-        int sum = 0;
         for (int i = 0; i < 7; i++) {
-            int motion = c.propose(5, 3 + i);
-            Check.equal("34 carried", c.vote(motion), 'c');
-            sum += 3 + i;
-            Check.equal("35 adopted", c.adoptedWeight(), sum);
+            Check.equal("34 carried", c.vote(c.propose(5, 3 + i)), 'c');
             if (i != 2) {
                 c.passSeason();
             }
         }
+        c.propose(5, 1);
+        c.amend(7, 5, 1);
+        Check.equal("34 a carried amendment", c.vote(8), 'c');
+        Check.equal("34 a rejected motion", c.vote(c.propose(0, 1)), 'r');
         int[] due = {2, 2, 2, 1};
         for (int season = 0; season < 4; season++) {
             Check.equal("34 minutes of " + season, c.minutesIn(season), due[season]);
+            Check.equal("34 none at first", empty().minutesIn(season), 0);
         }
         for (int season : new int[] {-1, 4, Integer.MIN_VALUE, Integer.MAX_VALUE}) {
             Check.thrown("34 no season", ARGUMENT, () -> c.minutesIn(season));
         }
     }
 
-    private static void totalIs(HedgeCommittee c, int due) {
-        Check.equal("36 weightTotal", c.weightTotal(), due);
-        Check.equal("37 weightByAccounts", c.weightByAccounts(), due);
+    private static void promise35AdoptedWeight() {
+        HedgeCommittee c = withHedges();
+        int sum = 0;
+        for (int i = 0; i < 7; i++) {
+            Check.equal("35 carried", c.vote(c.propose(5, 3 + i)), 'c');
+            sum += 3 + i;
+            Check.equal("35 adopted", c.adoptedWeight(), sum);
+            c.passSeason();
+        }
+        c.propose(5, 1);
+        c.amend(7, 5, 1);
+        Check.equal("35 a carried amendment", c.vote(8), 'c');
+        Check.equal("35 a rejected motion", c.vote(c.propose(0, 1)), 'r');
+        Check.equal("35 not adopted", c.adoptedWeight(), sum);
+        c.vote(7);
+        Check.equal("35 with the amendment", c.adoptedWeight(), sum + 2);
+        Check.equal("35 none at first", empty().adoptedWeight(), 0);
     }
 
-    private static void promise36And37WeightTotals() {
+    private static void totalOfTrees(String what, Total total) {
+        Check.equal(what + " of none", total.of(empty()), 0);
         HedgeCommittee c = withTrees();
-        totalIs(c, 39);
-        c.vote(4);
-        totalIs(c, 37);
+        Check.equal(what + " of all", total.of(c), 39);
+        Check.equal("7 vetoed", c.vote(4), 'v');
+        Check.equal(what + " without the vetoed one", total.of(c), 37);
         c.regrow(0);
-        totalIs(c, 41);
+        Check.equal(what + " with the regrown one", total.of(c), 41);
         c.prune(3, 0);
-        totalIs(c, 37);
-        c.vote(6);
-        totalIs(c, 32);
-        c.vote(2);
-        totalIs(c, 32);
-        Check.equal("36 the weight went to the parent", c.weight(0), 13);
-        Check.equal("36 carried", c.vote(5), 'c');
-        totalIs(c, 27);
+        Check.equal(what + " without the pruned one", total.of(c), 37);
+        Check.equal("7 vetoed", c.vote(6), 'v');
+        Check.equal(what + " without the vetoed one", total.of(c), 32);
+        Check.equal("7 carried", c.vote(2), 'c');
+        Check.equal(what + " with a carried amendment", total.of(c), 32);
+        Check.equal("7 carried", c.vote(5), 'c');
+        Check.equal(what + " without the adopted one", total.of(c), 27);
         c.prune(0, 0);
-        totalIs(c, 13);
+        Check.equal(what + " without the pruned ones", total.of(c), 13);
         c.undo();
-        totalIs(c, 27);
-        Check.equal("36 carried, the thorns are spent", c.vote(3), 'c');
-        totalIs(c, 27);
-        Check.equal("36 rejected", withRejection().weightTotal(), 2);
-        Check.equal("37 rejected", withRejection().weightByAccounts(), 2);
-        totalIs(withGreatChain(), (int) (1886857894L + 943428947L + 471714473L));
-        totalIs(withGreatPair(true), (int) (7 + 2 * 1651629034L));
+        Check.equal(what + " after undo", total.of(c), 27);
+        Check.equal("7 carried, the thorns are spent", c.vote(3), 'c');
+        Check.equal(what + " with a carried amendment", total.of(c), 27);
+        Check.equal(what + " without rejected ones", total.of(withRejection()), 2);
+        Check.equal(what + " of a great chain", total.of(withGreatChain()),
+                (int) (1886857894L + 943428947L + 471714473L));
+        Check.equal(what + " of a great pair", total.of(withGreatPair(true)),
+                (int) (7 + 2 * 1651629034L));
+    }
+
+    private static void promise36WeightTotal() {
+        totalOfTrees("36 weightTotal", HedgeCommittee::weightTotal);
+    }
+
+    private static void promise37WeightByAccounts() {
+        totalOfTrees("37 weightByAccounts", HedgeCommittee::weightByAccounts);
     }
 
     private static HedgeCommittee withRejection() {
@@ -1055,25 +1191,17 @@ public final class PromiseTest {
 
     // ---- output
 
-    private static void promise45And46Output() {
+    private static void promise45WriteBranch() {
         HedgeCommittee c = withTrees();
-        Check.thrown("46 empty at first", INDEX, () -> c.outputAt(0));
         Check.equal("45 length", c.writeBranch(0), 33);
         Check.equal("45 line", line(c, 0), "0:4*10(1:5*6(3:7*8(4:8*2)),2:6*3)");
         Check.equal("45 a tip", line(c, 2), "2:6*3");
-        Check.equal("46 replaced", Check.outcome(() -> c.outputAt(5)), INDEX.getName());
         Check.equal("45 another tree", line(c, 5), "5:2*5(6:9*5)");
-        for (int index : new int[] {-1, 12, Integer.MIN_VALUE, Integer.MAX_VALUE}) {
-            Check.thrown("46 index", INDEX, () -> c.outputAt(index));
-        }
         for (int id : NO_IDS) {
             Check.thrown("45 no motion", ELEMENT, () -> c.writeBranch(id));
         }
-        c.undo();
-        c.save();
-        c.restore();
-        Check.equal("46 the line stays", c.outputAt(11), ')');
-        Check.equal("46 the line stays", c.outputAt(0), '5');
+        Check.equal("45 the line stays", c.outputAt(11), ')');
+        Check.thrown("45 and grows no longer", INDEX, () -> c.outputAt(12));
 
         HedgeCommittee example = withMotions(3);
         example.propose(5, 7);
@@ -1082,7 +1210,9 @@ public final class PromiseTest {
         example.amend(3, 0, 1);
         example.amend(6, 9, 3);
         Check.equal("45 the example", line(example, 3), "3:5*7(4:1*2,6:0*1(7:9*3))");
+    }
 
+    private static void promise45WriteBranchOfManyMotions() {
         HedgeCommittee chain = empty();
         StringBuilder due = new StringBuilder("0:1*2");
         chain.propose(1, 2);
@@ -1111,6 +1241,26 @@ public final class PromiseTest {
             high.vote(103 + i);
         }
         Check.equal("45 long numbers", line(high, 102), "102:5*1220");
+    }
+
+    private static void promise46OutputAt() {
+        HedgeCommittee c = withTrees();
+        Check.thrown("46 empty at first", INDEX, () -> c.outputAt(0));
+        c.writeBranch(0);
+        c.writeBranch(5);
+        String due = "5:2*5(6:9*5)";
+        for (int index = 0; index < due.length(); index++) {
+            Check.equal("46 character " + index, c.outputAt(index), due.charAt(index));
+        }
+        for (int index : new int[] {-1, 12, Integer.MIN_VALUE, Integer.MAX_VALUE}) {
+            Check.thrown("46 index", INDEX, () -> c.outputAt(index));
+        }
+        c.prune(5, 0);
+        c.undo();
+        c.save();
+        c.restore();
+        Check.equal("46 the line stays", c.outputAt(11), ')');
+        Check.equal("46 the line stays", c.outputAt(0), '5');
     }
 
     // ---- undo and snapshot
@@ -1226,18 +1376,39 @@ public final class PromiseTest {
         Check.thrown("47 only eight", STATE, c::undo);
     }
 
-    private static void promise48And49SaveAndRestore() {
+    private static void promise48Save() {
         HedgeCommittee c = withTrees();
-        Check.thrown("49 none saved", STATE, () -> {
-            c.restore();
-            return 0;
-        });
+        String before = picture(c);
+        c.save();
+        Check.equal("48 saving changes nothing", picture(c), before);
+        c.vote(4);
+        c.save();
+        Check.equal("48 saving is not a changing call", c.undo(), 7);
+        Check.equal("48 undo leaps over it", picture(c), before);
+        c.restore();
+        Check.equal("48 replaces the saved state", c.motionCount(), 6);
+        Check.equal("48 undo does not touch it", c.carriedShare(), 0.0f);
+        HedgeCommittee fresh = empty();
+        fresh.save();
+        fresh.propose(1, 1);
+        fresh.restore();
+        Check.equal("48 an empty state", fresh.motionCount(), 0);
+        Check.equal("48 the next id too", fresh.propose(1, 1), 0);
+    }
+
+    private static Object restore(HedgeCommittee c) {
+        c.restore();
+        return "restored";
+    }
+
+    private static void promise49Restore() {
+        HedgeCommittee c = withTrees();
+        Check.thrown("49 none saved", STATE, () -> restore(c));
         Check.equal("49 nothing changed", c.undo(), 7);
         String before = picture(c);
         c.save();
         c.vote(4);
         c.passSeason();
-        Check.equal("48 saving is not a changing call", c.undo(), 7);
         c.propose(1, 1);
         c.propose(1, 1);
         c.append('x');
@@ -1251,15 +1422,23 @@ public final class PromiseTest {
         Check.equal("49 stays saved", picture(c), before);
         c.vote(4);
         Check.equal("49 undo begins anew", c.undo(), 0);
-        c.vote(2);
-        c.vote(5);
-        String after = picture(c);
+        Check.equal("49 undo begins anew", picture(c), before);
+    }
+
+    private static void promise49RestoreOfEachPart() {
+        HedgeCommittee c = withVotes();
+        c.passSeason();
+        String before = picture(c);
         c.save();
-        c.undo();
-        c.undo();
-        Check.equal("48 undo after save", picture(c), before);
+        c.addHedge(9, 9, 9);
+        c.vote(9);
+        c.vote(5);
+        c.propose(9, 8);
+        c.prune(0, 0);
+        c.vote(0);
+        c.passSeason();
         c.restore();
-        Check.equal("48 replaces the saved state", picture(c), after);
+        Check.equal("49 each part", picture(c), before);
         HedgeCommittee taste = empty();
         taste.propose(5, 1);
         taste.addHedge(3, 0, 5);
@@ -1269,10 +1448,5 @@ public final class PromiseTest {
         Check.equal("49 another taste", taste.leavesInFavour(0), 0);
         taste.restore();
         Check.equal("49 the saved taste", taste.leavesInFavour(0), 3);
-        HedgeCommittee fresh = empty();
-        fresh.save();
-        fresh.propose(1, 1);
-        fresh.restore();
-        Check.equal("48 an empty state", fresh.motionCount(), 0);
     }
 }

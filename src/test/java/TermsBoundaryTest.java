@@ -1,6 +1,7 @@
 /** The boundaries that the section "Terms" names, sentence by sentence. */
 public final class TermsBoundaryTest {
     private static final Refusals FRESH = new Refusals("fresh", Makers::fresh);
+    private static final Refusals MIDWAY = new Refusals("midway", Makers::midway);
     private static final Refusals UNTYPED = new Refusals("untyped", Makers::untyped);
     private static final Refusals FULL = new Refusals("full", Makers::fullUntyped);
 
@@ -8,17 +9,38 @@ public final class TermsBoundaryTest {
     }
 
     public static void main(String[] args) {
+        hedges();
+        motions();
+        votes();
+        seasons();
+        goodSets();
+        programs();
+        undo();
+        exceptions();
+        theLastOf512Calls();
+        Check.finish();
+    }
+
+    // ---- the paragraphs of the section
+
+    private static void hedges() {
         atMostSixHedges();
         leavesFrom1To99();
         thornsFrom0To9();
         tasteFrom0To9();
         hedgesCannotLeave();
+    }
+
+    private static void motions() {
         atMostTwelveMotions();
         idsAscendFromZeroAndAreNotUsedAgain();
         toneFrom0To9();
         weightAtLeast1();
         depthOfMainMotionsAndBelow();
         branchesTipsAndPaths();
+    }
+
+    private static void votes() {
         inFavourUpToADifferenceOf3();
         vetoFromADifferenceOf7();
         vetoWithAtLeastOneThorn();
@@ -26,24 +48,42 @@ public final class TermsBoundaryTest {
         vetoGoesBeforeTheLeaves();
         theTipIsRemovedInEachCase();
         carriedWithAndWithoutAParent();
+    }
+
+    private static void seasons() {
         springAtFirstAndAfterWinter();
         leavesNotAbove99AndNotBelow1();
         thornsInSpringAlone();
-        goodSets();
+    }
+
+    private static void goodSets() {
+        noMotionWithItsParent();
+        worthIsTheSumOfTheWeights();
+    }
+
+    /** With the paragraphs of the grammar, and of the commands and the error position. */
+    private static void programs() {
         bufferOfAtMostSixtyCharacters();
         programsOfOneAndOfMoreCommands();
         numbersOfOneOrTwoDigits();
         digitsAtTheirEnds();
         errorPositionAtTheEnds();
         commandsCallWithTheirNumbers();
+    }
+
+    private static void undo() {
         eachSuccessfulCallCanBeUndone();
         atMostTheEightMostRecent();
         undoSaveAndRestoreConcernTheNextId();
         undoSaveAndRestoreLeaveTheRest();
+    }
+
+    private static void exceptions() {
+        aChangeThatThrowsChangesNothing();
+        aQueryThatThrowsChangesNothing();
+        aRunThatThrowsEmptiesTheBuffer();
         exceptionListedFirst();
         divisionsAreRoundedDown();
-        theLastOf512Calls();
-        Check.finish();
     }
 
     private static HedgeCommittee withHedge(int leaves, int thorns, int taste) {
@@ -374,7 +414,7 @@ public final class TermsBoundaryTest {
     // ---- good sets
 
     /** "A set of motions is good if it contains no motion together with its parent." */
-    private static void goodSets() {
+    private static void noMotionWithItsParent() {
         Check.equal("the empty set", Makers.fresh().goodSets(), 1);
         Check.equal("one motion or none", Makers.chainOf(1).goodSets(), 2);
         Check.equal("not with the parent", Makers.chainOf(2).goodSets(), 3);
@@ -382,10 +422,23 @@ public final class TermsBoundaryTest {
         Check.equal("chain of twelve", Makers.chain().goodSets(), 377);
         Check.equal("all with one parent", Makers.star().goodSets(), 2049);
         Check.equal("all together", Makers.mains(12).goodSets(), 4096);
-        Check.equal("worth of the empty set", Makers.fresh().bestWorth(), 0);
-        Check.equal("worth of one", Makers.chainOf(1).bestWorth(), 2);
-        Check.equal("worth of one of two", Makers.chainOf(2).bestWorth(), 2);
-        Check.equal("worth of both ends of three", Makers.chainOf(3).bestWorth(), 4);
+    }
+
+    /** "The worth of a set is the sum of the weights of its motions." */
+    private static void worthIsTheSumOfTheWeights() {
+        int[] worths = {0, 1, 3, 6, 10};
+        for (int motions = 1; motions < worths.length; motions++) {
+            bestIs("all together", Makers.mains(motions), worths[motions]);
+        }
+        bestIs("the empty set", Makers.fresh(), 0);
+        bestIs("one", Makers.chainOf(1), 2);
+        bestIs("one of two", Makers.chainOf(2), 2);
+        bestIs("both ends of three", Makers.chainOf(3), 4);
+    }
+
+    private static void bestIs(String what, HedgeCommittee c, int due) {
+        Check.equal("worth of " + what, c.bestWorth(), due);
+        Check.equal("worth of " + what + " by sets", c.bestWorthBySets(), due);
     }
 
     // ---- programs
@@ -621,6 +674,71 @@ public final class TermsBoundaryTest {
     }
 
     // ---- exceptions and the rest
+
+    /** "If a call throws an exception, nothing changes" */
+    private static void aChangeThatThrowsChangesNothing() {
+        MIDWAY.due("addHedge", Refusals.ARGUMENT, c -> c.addHedge(100, 0, 0));
+        MIDWAY.due("propose", Refusals.ARGUMENT, c -> c.propose(0, 21));
+        MIDWAY.due("amend", Refusals.ARGUMENT, c -> c.amend(0, 10, 1));
+        MIDWAY.due("amend of none", Refusals.ELEMENT, c -> c.amend(9, 0, 1));
+        MIDWAY.due("prune", Refusals.ARGUMENT, c -> c.prune(0, 10));
+        MIDWAY.due("prune of none", Refusals.ELEMENT, c -> c.prune(9, 0));
+        MIDWAY.due("regrow of none", Refusals.ELEMENT, c -> c.regrow(9));
+        MIDWAY.due("vote", Refusals.STATE, c -> c.vote(0));
+        MIDWAY.due("vote about none", Refusals.ELEMENT, c -> c.vote(9));
+        Refusals full = new Refusals("full and typed", Makers::full);
+        full.due("addHedge", Refusals.STATE, c -> c.addHedge(1, 0, 0));
+        full.due("propose", Refusals.STATE, c -> c.propose(0, 1));
+        full.due("amend", Refusals.STATE, c -> c.amend(0, 0, 1));
+        full.due("regrow", Refusals.STATE, c -> c.regrow(0));
+        full.due("append", Refusals.STATE, c -> c.append('x'));
+        FRESH.due("undo", Refusals.STATE, HedgeCommittee::undo);
+        FRESH.due("restore", Refusals.STATE, c -> {
+            c.restore();
+            return 0;
+        });
+    }
+
+    /** "If a call throws an exception, nothing changes" */
+    private static void aQueryThatThrowsChangesNothing() {
+        MIDWAY.due("leaves", Refusals.INDEX, c -> c.leaves(3));
+        MIDWAY.due("thorns", Refusals.INDEX, c -> c.thorns(3));
+        MIDWAY.due("hedgeAtRank", Refusals.ELEMENT, c -> c.hedgeAtRank(3));
+        MIDWAY.due("leavesInFavour", Refusals.ELEMENT, c -> c.leavesInFavour(9));
+        MIDWAY.due("wouldVeto of none", Refusals.INDEX, c -> c.wouldVeto(3, 0));
+        MIDWAY.due("wouldVeto", Refusals.ELEMENT, c -> c.wouldVeto(0, 9));
+        MIDWAY.due("motionAt", Refusals.INDEX, c -> c.motionAt(5));
+        MIDWAY.due("tone", Refusals.ELEMENT, c -> c.tone(9));
+        MIDWAY.due("weight", Refusals.ELEMENT, c -> c.weight(9));
+        MIDWAY.due("parent", Refusals.ELEMENT, c -> c.parent(0));
+        MIDWAY.due("depth", Refusals.ELEMENT, c -> c.depth(9));
+        MIDWAY.due("isTip", Refusals.ELEMENT, c -> c.isTip(9));
+        MIDWAY.due("branchSize", Refusals.ELEMENT, c -> c.branchSize(9));
+        MIDWAY.due("lastTip", Refusals.ELEMENT, c -> c.lastTip(9));
+        MIDWAY.due("motionAtRank", Refusals.INDEX, c -> c.motionAtRank(5));
+        MIDWAY.due("commonMotion", Refusals.UNSUPPORTED, c -> c.commonMotion(0, 4));
+        MIDWAY.due("commonMotionByRows", Refusals.UNSUPPORTED, c -> c.commonMotionByRows(0, 4));
+        MIDWAY.due("pathSize", Refusals.UNSUPPORTED, c -> c.pathSize(0, 4));
+        MIDWAY.due("longestPath", Refusals.ELEMENT, c -> c.longestPath(9));
+        MIDWAY.due("longestPathBySweeps", Refusals.ELEMENT, c -> c.longestPathBySweeps(9));
+        MIDWAY.due("minutesIn", Refusals.ARGUMENT, c -> c.minutesIn(4));
+        FRESH.due("meanLeaves", Refusals.ARITHMETIC, HedgeCommittee::meanLeaves);
+        FRESH.due("carriedShare", Refusals.ARITHMETIC, HedgeCommittee::carriedShare);
+        FRESH.due("errorPosition", Refusals.ELEMENT, HedgeCommittee::errorPosition);
+        FRESH.due("failedCommand", Refusals.ELEMENT, HedgeCommittee::failedCommand);
+        MIDWAY.due("writeBranch", Refusals.ELEMENT, c -> c.writeBranch(9));
+        MIDWAY.due("outputAt", Refusals.INDEX, c -> c.outputAt(99));
+    }
+
+    /** "except that run empties the text buffer and stores the error position or .. command" */
+    private static void aRunThatThrowsEmptiesTheBuffer() {
+        FRESH.dueOfRun("seas", Refusals.ARGUMENT, 4);
+        FRESH.dueOfRun("season;main 1 1;vote 0", Refusals.UNSUPPORTED, 2);
+        UNTYPED.dueOfRun("season;vote 3 ", Refusals.ARGUMENT, 13);
+        UNTYPED.dueOfRun("season;vote 3;vote 3", Refusals.UNSUPPORTED, 2);
+        FULL.dueOfRun("season;vote 11;main 1 1;", Refusals.ARGUMENT, 24);
+        FULL.dueOfRun("season;vote 11;main 1 1;regrow 0", Refusals.UNSUPPORTED, 3);
+    }
 
     /** "If several conditions of a method apply, the exception that is listed first is thrown." */
     private static void exceptionListedFirst() {
