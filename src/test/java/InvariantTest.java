@@ -10,9 +10,9 @@ public final class InvariantTest {
     }
 
     public static void main(String[] args) throws ReflectiveOperationException {
-        weightsDisagree();
-        worthsDisagree();
-        longestPathsDisagree();
+        promise40WeightsDisagree();
+        promise40WorthsDisagree();
+        promise40LongestPathsDisagree();
         Check.finish();
     }
 
@@ -26,7 +26,7 @@ public final class InvariantTest {
         return field;
     }
 
-    private static void weightsDisagree() throws ReflectiveOperationException {
+    private static void promise40WeightsDisagree() throws ReflectiveOperationException {
         for (String account : new String[] {"begun", "pruned", "rejected", "vetoed", "adopted"}) {
             HedgeCommittee c = Makers.midway();
             Object state = inside(c, "state");
@@ -51,13 +51,13 @@ public final class InvariantTest {
         return c;
     }
 
-    private static void worthsDisagree() throws ReflectiveOperationException {
+    private static void promise40WorthsDisagree() throws ReflectiveOperationException {
         HedgeCommittee c = withParentBehind(5, 3);
         Check.equal("30 the worths do not agree", c.bestWorth() == c.bestWorthBySets(), false);
         Check.equal("40 of worths that differ", c.isConsistent(), false);
     }
 
-    private static void longestPathsDisagree() throws ReflectiveOperationException {
+    private static void promise40LongestPathsDisagree() throws ReflectiveOperationException {
         HedgeCommittee c = withParentBehind(3, 5);
         Check.equal("30 the worths agree", c.bestWorth(), c.bestWorthBySets());
         Check.equal("36 the weights agree", c.weightTotal(), c.weightByAccounts());

@@ -67,6 +67,7 @@ public final class ProgramsBoundaryTest {
         FULL.due("41 the 61st", Refusals.STATE, f -> f.append((char) 0));
         FULL.due("41 the 61st", Refusals.STATE, f -> f.append('\uffff'));
         Check.equal("41 what is full is run as it is", Makers.full().run(), 8);
+        MIDWAY.leavesState("41 append", m -> m.append('x'));
     }
 
     private static void promise41AnyCharacter() {
@@ -154,6 +155,7 @@ public final class ProgramsBoundaryTest {
     // ---- errorPosition and failedCommand
 
     private static void promise43NoneStored() {
+        MIDWAY.changesNothing("43 errorPosition", HedgeCommittee::errorPosition);
         FRESH.due("43 errorPosition", Refusals.ELEMENT, HedgeCommittee::errorPosition);
         FULL.due("43 errorPosition", Refusals.ELEMENT, HedgeCommittee::errorPosition);
         HedgeCommittee c = Makers.fresh();
@@ -185,6 +187,7 @@ public final class ProgramsBoundaryTest {
     }
 
     private static void promise44NoneStored() {
+        MIDWAY.changesNothing("44 failedCommand", HedgeCommittee::failedCommand);
         FRESH.due("44 failedCommand", Refusals.ELEMENT, HedgeCommittee::failedCommand);
         FULL.due("44 failedCommand", Refusals.ELEMENT, HedgeCommittee::failedCommand);
         HedgeCommittee c = Makers.fresh();
@@ -228,6 +231,8 @@ public final class ProgramsBoundaryTest {
     }
 
     private static void promise45LinesOfOneAndOfAll() {
+        MIDWAY.leavesState("45 writeBranch", m -> m.writeBranch(4));
+        FULL.leavesState("45 writeBranch", f -> f.writeBranch(0));
         Check.equal("45 one", Makers.line(Makers.mains(1), 0), "0:5*1");
         Check.equal("45 the first of the full", Makers.line(Makers.full(), 0),
                 "0:0*1(1:9*20,2:4*3(3:5*8,4:5*8))");
@@ -255,6 +260,8 @@ public final class ProgramsBoundaryTest {
     }
 
     private static void promise46FirstAndLastCharacter() {
+        MIDWAY.changesNothing("46 outputAt", m -> m.outputAt(19));
+        FULL.changesNothing("46 outputAt", f -> f.outputAt(0));
         FULL.range("46 outputAt", Refusals.INDEX, 0, 31, HedgeCommittee::outputAt);
         MIDWAY.range("46 outputAt", Refusals.INDEX, 0, 19, HedgeCommittee::outputAt);
         HedgeCommittee c = Makers.chain();

@@ -23,28 +23,50 @@ public final class QueriesBoundaryTest {
         promise14WouldVeto();
         promise15MotionCount();
         promise16MotionAt();
-        promise17To18ToneAndWeight();
+        promise17Tone();
+        promise18Weight();
         promise19Parent();
-        promise20To23Branches();
+        promise20Depth();
+        promise21IsTip();
+        promise22BranchSize();
+        promise23LastTip();
         promise24MotionAtRank();
         promise25CommonMotion();
         promise26CommonMotionByRows();
         promise27PathSize();
-        promise28And29LongestPath();
-        promise30And31BestWorth();
+        promise28LongestPath();
+        promise29LongestPathBySweeps();
+        promise30BestWorth();
+        promise31BestWorthBySets();
         promise32GoodSets();
         promise33Season();
         promise34MinutesIn();
         promise35AdoptedWeight();
-        promise36And37Totals();
+        promise36WeightTotal();
+        promise37WeightByAccounts();
         promise38MeanLeaves();
         promise39CarriedShare();
         promise40IsConsistent();
         Check.finish();
     }
 
-    /** A query by id: taken for the first and the last motion, refused where there is none. */
+    /** A query without numbers changes nothing. */
+    private static void isQuiet(String what, Refusals.Use query) {
+        FRESH.changesNothing(what, query);
+        MIDWAY.changesNothing(what, query);
+        FULL.changesNothing(what, query);
+    }
+
+    /** A query by a number changes nothing, where it is taken and where it is refused. */
+    private static void isQuiet(String what, Refusals.UseOfNumber query) {
+        for (int number : new int[] {-1, 0, 1, 3, 5}) {
+            isQuiet(what + " of " + number, c -> query.on(c, number));
+        }
+    }
+
+    /** A query by id is refused where there is none, and changes nothing where it is taken. */
     private static void byId(String what, Refusals.UseOfNumber query) {
+        isQuiet(what, query);
         FRESH.due(what, Refusals.ELEMENT, NO_PLACE, query);
         MIDWAY.due(what, Refusals.ELEMENT, NO_IDS_MIDWAY, query);
         FULL.due(what, Refusals.ELEMENT, NO_IDS_FULL, query);
@@ -59,6 +81,7 @@ public final class QueriesBoundaryTest {
     // ---- hedges
 
     private static void promise09HedgeCount() {
+        isQuiet("9 hedgeCount", HedgeCommittee::hedgeCount);
         HedgeCommittee c = Makers.fresh();
         for (int hedges = 0; hedges < 6; hedges++) {
             Check.equal("9 hedges", c.hedgeCount(), hedges);
@@ -70,6 +93,7 @@ public final class QueriesBoundaryTest {
     }
 
     private static void promise10Leaves() {
+        isQuiet("10 leaves", HedgeCommittee::leaves);
         FRESH.due("10 leaves", Refusals.INDEX, NO_PLACE, HedgeCommittee::leaves);
         MIDWAY.range("10 leaves", Refusals.INDEX, 0, 2, HedgeCommittee::leaves);
         FULL.range("10 leaves", Refusals.INDEX, 0, 5, HedgeCommittee::leaves);
@@ -79,6 +103,7 @@ public final class QueriesBoundaryTest {
     }
 
     private static void promise11Thorns() {
+        isQuiet("11 thorns", HedgeCommittee::thorns);
         FRESH.due("11 thorns", Refusals.INDEX, NO_PLACE, HedgeCommittee::thorns);
         MIDWAY.range("11 thorns", Refusals.INDEX, 0, 2, HedgeCommittee::thorns);
         FULL.range("11 thorns", Refusals.INDEX, 0, 5, HedgeCommittee::thorns);
@@ -88,6 +113,7 @@ public final class QueriesBoundaryTest {
     }
 
     private static void promise12HedgeAtRank() {
+        isQuiet("12 hedgeAtRank", HedgeCommittee::hedgeAtRank);
         FRESH.due("12 hedgeAtRank", Refusals.ELEMENT, NO_PLACE, HedgeCommittee::hedgeAtRank);
         MIDWAY.range("12 hedgeAtRank", Refusals.ELEMENT, 0, 2, HedgeCommittee::hedgeAtRank);
         FULL.range("12 hedgeAtRank", Refusals.ELEMENT, 0, 5, HedgeCommittee::hedgeAtRank);
@@ -121,6 +147,8 @@ public final class QueriesBoundaryTest {
     }
 
     private static void promise14WouldVeto() {
+        isQuiet("14 wouldVeto of the first", (c, n) -> c.wouldVeto(0, n));
+        isQuiet("14 wouldVeto about the first", (c, n) -> c.wouldVeto(n, 0));
         for (int hedge : new int[] {0, 2}) {
             MIDWAY.due("14 wouldVeto of hedge " + hedge, Refusals.ELEMENT, NO_IDS_MIDWAY,
                     (c, n) -> c.wouldVeto(hedge, n));
@@ -143,6 +171,7 @@ public final class QueriesBoundaryTest {
     // ---- motions
 
     private static void promise15MotionCount() {
+        isQuiet("15 motionCount", HedgeCommittee::motionCount);
         HedgeCommittee c = Makers.fresh();
         for (int motions = 0; motions < 12; motions++) {
             Check.equal("15 motions", c.motionCount(), motions);
@@ -154,6 +183,7 @@ public final class QueriesBoundaryTest {
     }
 
     private static void promise16MotionAt() {
+        isQuiet("16 motionAt", HedgeCommittee::motionAt);
         FRESH.due("16 motionAt", Refusals.INDEX, NO_PLACE, HedgeCommittee::motionAt);
         MIDWAY.range("16 motionAt", Refusals.INDEX, 0, 4, HedgeCommittee::motionAt);
         FULL.range("16 motionAt", Refusals.INDEX, 0, 11, HedgeCommittee::motionAt);
@@ -164,9 +194,12 @@ public final class QueriesBoundaryTest {
         Check.equal("16 the last of twelve", Makers.full().motionAt(11), 11);
     }
 
-    private static void promise17To18ToneAndWeight() {
+    private static void promise17Tone() {
         byId("17 tone", HedgeCommittee::tone);
         answers("17 tone", HedgeCommittee::tone, 0, 3);
+    }
+
+    private static void promise18Weight() {
         byId("18 weight", HedgeCommittee::weight);
         answers("18 weight", HedgeCommittee::weight, 1, 2);
     }
@@ -184,16 +217,25 @@ public final class QueriesBoundaryTest {
         Check.equal("19 an id and not a position", gap.parent(5), 4);
     }
 
-    private static void promise20To23Branches() {
+    private static void promise20Depth() {
         byId("20 depth", HedgeCommittee::depth);
         answers("20 depth", HedgeCommittee::depth, 0, 3);
         Check.equal("20 deepest", Makers.chain().depth(11), 11);
-        byId("21 isTip", (c, n) -> c.isTip(n));
-        answers("21 isTip", (c, n) -> c.isTip(n), false, true);
+    }
+
+    private static void promise21IsTip() {
+        byId("21 isTip", HedgeCommittee::isTip);
+        answers("21 isTip", HedgeCommittee::isTip, false, true);
+    }
+
+    private static void promise22BranchSize() {
         byId("22 branchSize", HedgeCommittee::branchSize);
         answers("22 branchSize", HedgeCommittee::branchSize, 5, 1);
         Check.equal("22 all of a chain", Makers.chain().branchSize(0), 12);
         Check.equal("22 all of a star", Makers.star().branchSize(0), 12);
+    }
+
+    private static void promise23LastTip() {
         byId("23 lastTip", HedgeCommittee::lastTip);
         answers("23 lastTip", HedgeCommittee::lastTip, 4, 11);
         Check.equal("23 of a chain", Makers.chain().lastTip(0), 11);
@@ -202,6 +244,7 @@ public final class QueriesBoundaryTest {
     }
 
     private static void promise24MotionAtRank() {
+        isQuiet("24 motionAtRank", HedgeCommittee::motionAtRank);
         FRESH.due("24 motionAtRank", Refusals.INDEX, NO_PLACE, HedgeCommittee::motionAtRank);
         MIDWAY.range("24 motionAtRank", Refusals.INDEX, 0, 4, HedgeCommittee::motionAtRank);
         FULL.range("24 motionAtRank", Refusals.INDEX, 0, 11, HedgeCommittee::motionAtRank);
@@ -277,25 +320,27 @@ public final class QueriesBoundaryTest {
         Check.equal("27 path in a star", star.pathSize(1, 11), 3);
     }
 
-    private static void longestIs(HedgeCommittee c, int motion, int due) {
-        Check.equal("28 longest of " + motion, c.longestPath(motion), due);
-        Check.equal("29 longest of " + motion, c.longestPathBySweeps(motion), due);
-    }
-
-    private static void promise28And29LongestPath() {
-        byId("28 longestPath", HedgeCommittee::longestPath);
-        byId("29 longestPathBySweeps", HedgeCommittee::longestPathBySweeps);
+    private static void longestIs(String what, Refusals.UseOfNumber query) {
+        byId(what, query);
         for (int id = 0; id < 12; id++) {
-            longestIs(Makers.mains(12), id, 1);
-            longestIs(Makers.chain(), id, 12 - id);
-            longestIs(Makers.star(), id, id == 0 ? 3 : 1);
+            Check.equal(what + " of a motion alone", query.on(Makers.mains(12), id), 1);
+            Check.equal(what + " of a chain", query.on(Makers.chain(), id), 12 - id);
+            Check.equal(what + " of a star", query.on(Makers.star(), id), id == 0 ? 3 : 1);
         }
         int[] due = {4, 1, 3, 1, 1, 2, 1, 1, 4, 3, 2, 1};
         for (int id = 0; id < 12; id++) {
-            longestIs(Makers.full(), id, due[id]);
+            Check.equal(what + " of " + id + " of the full", query.on(Makers.full(), id), due[id]);
         }
-        longestIs(twoArms(), 0, 12);
-        longestIs(twoArms(), 1, 6);
+        Check.equal(what + " of two arms", query.on(twoArms(), 0), 12);
+        Check.equal(what + " of one arm", query.on(twoArms(), 1), 6);
+    }
+
+    private static void promise28LongestPath() {
+        longestIs("28 longestPath", HedgeCommittee::longestPath);
+    }
+
+    private static void promise29LongestPathBySweeps() {
+        longestIs("29 longestPathBySweeps", HedgeCommittee::longestPathBySweeps);
     }
 
     /** A main motion with arms of six and of five amendments. */
@@ -308,29 +353,34 @@ public final class QueriesBoundaryTest {
         return c;
     }
 
-    private static void bestIs(String what, HedgeCommittee c, int due) {
-        Check.equal("30 best worth of " + what, c.bestWorth(), due);
-        Check.equal("31 best worth of " + what + " by sets", c.bestWorthBySets(), due);
-    }
-
-    private static void promise30And31BestWorth() {
-        bestIs("none", Makers.fresh(), 0);
-        bestIs("one", Makers.mains(1), 1);
-        bestIs("twelve apart", Makers.mains(12), 78);
-        bestIs("a chain of twelve", Makers.chain(), 12);
-        bestIs("a star of twelve", Makers.star(), 22);
-        bestIs("the full committee", Makers.full(), 36 + 20 + 7 + 9);
+    private static void bestIs(String what, Refusals.Use best) {
+        isQuiet(what, best);
+        Check.equal(what + " of none", best.on(Makers.fresh()), 0);
+        Check.equal(what + " of one", best.on(Makers.mains(1)), 1);
+        Check.equal(what + " of twelve apart", best.on(Makers.mains(12)), 78);
+        Check.equal(what + " of a chain of twelve", best.on(Makers.chain()), 12);
+        Check.equal(what + " of a star of twelve", best.on(Makers.star()), 22);
+        Check.equal(what + " of the full committee", best.on(Makers.full()), 36 + 20 + 7 + 9);
         HedgeCommittee heaviest = Makers.fresh();
         for (int i = 0; i < 12; i++) {
             heaviest.propose(0, 20);
         }
-        bestIs("the heaviest", heaviest, 240);
+        Check.equal(what + " of the heaviest", best.on(heaviest), 240);
         HedgeCommittee emptied = Makers.mains(1);
         emptied.vote(0);
-        bestIs("none any more", emptied, 0);
+        Check.equal(what + " of none any more", best.on(emptied), 0);
+    }
+
+    private static void promise30BestWorth() {
+        bestIs("30 bestWorth", HedgeCommittee::bestWorth);
+    }
+
+    private static void promise31BestWorthBySets() {
+        bestIs("31 bestWorthBySets", HedgeCommittee::bestWorthBySets);
     }
 
     private static void promise32GoodSets() {
+        isQuiet("32 goodSets", HedgeCommittee::goodSets);
         Check.equal("32 of none", Makers.fresh().goodSets(), 1);
         Check.equal("32 of one", Makers.mains(1).goodSets(), 2);
         Check.equal("32 of twelve apart", Makers.mains(12).goodSets(), 4096);
@@ -342,6 +392,7 @@ public final class QueriesBoundaryTest {
     // ---- totals
 
     private static void promise33Season() {
+        isQuiet("33 season", HedgeCommittee::season);
         HedgeCommittee c = Makers.fresh();
         int[] due = {0, 1, 2, 3, 0};
         for (int season : due) {
@@ -351,6 +402,7 @@ public final class QueriesBoundaryTest {
     }
 
     private static void promise34MinutesIn() {
+        isQuiet("34 minutesIn", HedgeCommittee::minutesIn);
         FRESH.range("34 minutesIn", Refusals.ARGUMENT, 0, 3, HedgeCommittee::minutesIn);
         MIDWAY.range("34 minutesIn", Refusals.ARGUMENT, 0, 3, HedgeCommittee::minutesIn);
         FULL.range("34 minutesIn", Refusals.ARGUMENT, 0, 3, HedgeCommittee::minutesIn);
@@ -364,6 +416,7 @@ public final class QueriesBoundaryTest {
     }
 
     private static void promise35AdoptedWeight() {
+        isQuiet("35 adoptedWeight", HedgeCommittee::adoptedWeight);
         HedgeCommittee c = Makers.midway();
         Check.equal("35 one adopted", c.adoptedWeight(), 7);
         Check.equal("35 none adopted", Makers.full().adoptedWeight(), 0);
@@ -375,21 +428,25 @@ public final class QueriesBoundaryTest {
         Check.equal("35 none left", twelve.weightByAccounts(), 0);
     }
 
-    private static void totalIs(String what, HedgeCommittee c, int due) {
-        Check.equal("36 total of " + what, c.weightTotal(), due);
-        Check.equal("37 accounts of " + what, c.weightByAccounts(), due);
-    }
-
-    private static void promise36And37Totals() {
-        totalIs("none", Makers.fresh(), 0);
-        totalIs("five", Makers.midway(), 13 + 6 + 8 + 5 + 5);
-        totalIs("twelve", Makers.full(), 40 + 21 + 7 + 13);
+    private static void totalIs(String what, Refusals.Use total) {
+        isQuiet(what, total);
+        Check.equal(what + " of none", total.on(Makers.fresh()), 0);
+        Check.equal(what + " of five", total.on(Makers.midway()), 13 + 6 + 8 + 5 + 5);
+        Check.equal(what + " of twelve", total.on(Makers.full()), 40 + 21 + 7 + 13);
         HedgeCommittee pruned = Makers.star();
         pruned.prune(0, 0);
-        totalIs("one", pruned, 2);
+        Check.equal(what + " of one", total.on(pruned), 2);
         pruned.vote(0);
-        totalIs("none any more", pruned, 0);
-        totalIs("two of each account", accounts(), 22 + 1);
+        Check.equal(what + " of none any more", total.on(pruned), 0);
+        Check.equal(what + " with two of each account", total.on(accounts()), 22 + 1);
+    }
+
+    private static void promise36WeightTotal() {
+        totalIs("36 weightTotal", HedgeCommittee::weightTotal);
+    }
+
+    private static void promise37WeightByAccounts() {
+        totalIs("37 weightByAccounts", HedgeCommittee::weightByAccounts);
     }
 
     /** Two motions each that were vetoed, rejected, pruned, carried to a parent and adopted. */
@@ -414,6 +471,7 @@ public final class QueriesBoundaryTest {
     }
 
     private static void promise38MeanLeaves() {
+        isQuiet("38 meanLeaves", HedgeCommittee::meanLeaves);
         FRESH.due("38 meanLeaves", Refusals.ARITHMETIC, c -> c.meanLeaves());
         WITHOUT_HEDGES.due("38 meanLeaves", Refusals.ARITHMETIC, c -> c.meanLeaves());
         Check.equal("38 of one", Makers.mains(1).meanLeaves(), 10.0);
@@ -431,6 +489,7 @@ public final class QueriesBoundaryTest {
     }
 
     private static void promise39CarriedShare() {
+        isQuiet("39 carriedShare", HedgeCommittee::carriedShare);
         FRESH.due("39 carriedShare", Refusals.ARITHMETIC, c -> c.carriedShare());
         FULL.due("39 carriedShare", Refusals.ARITHMETIC, c -> c.carriedShare());
         WITHOUT_HEDGES.due("39 carriedShare after a refused vote", Refusals.ARITHMETIC, c -> {
@@ -451,6 +510,7 @@ public final class QueriesBoundaryTest {
     }
 
     private static void promise40IsConsistent() {
+        isQuiet("40 isConsistent", HedgeCommittee::isConsistent);
         Check.equal("40 none", Makers.fresh().isConsistent(), true);
         Check.equal("40 one", Makers.mains(1).isConsistent(), true);
         Check.equal("40 five", Makers.midway().isConsistent(), true);

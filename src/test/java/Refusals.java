@@ -44,8 +44,19 @@ final class Refusals {
     void due(String what, Class<? extends RuntimeException> exception, Use use) {
         HedgeCommittee c = maker.get();
         Check.thrown(where + ": " + what, exception, () -> use.on(c));
+        changesNothing(what, use);
+    }
+
+    /** Whether the call throws or not, the whole committee is as it was before. */
+    void changesNothing(String what, Use use) {
         Whole after = Whole.of(afterwards(use));
         Check.equal(where + ": what " + what + " changes", after.differenceFrom(before), "");
+    }
+
+    /** The call may change the buffer, the output line and what run stored, and nothing else. */
+    void leavesState(String what, Use use) {
+        Whole after = Whole.of(afterwards(use));
+        Check.equal(where + ": state after " + what, after.state, before.state);
     }
 
     /** Each of the numbers is refused. */

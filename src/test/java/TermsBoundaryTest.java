@@ -74,6 +74,7 @@ public final class TermsBoundaryTest {
     private static void undo() {
         eachSuccessfulCallCanBeUndone();
         atMostTheEightMostRecent();
+        undoSaveAndRestoreConcernTheWholeState();
         undoSaveAndRestoreConcernTheNextId();
         undoSaveAndRestoreLeaveTheRest();
     }
@@ -257,6 +258,10 @@ public final class TermsBoundaryTest {
         HedgeCommittee chain = Makers.chain();
         Check.equal("a branch of all", chain.branchSize(0), 12);
         Check.equal("a path through all", chain.pathSize(11, 0), 12);
+        HedgeCommittee full = Makers.full();
+        Check.equal("a branch beside others", full.branchSize(2), 3);
+        Check.equal("a path up and down", full.pathSize(3, 4), 3);
+        Check.equal("a path that comes to no motion twice", full.pathSize(1, 4), 4);
     }
 
     // ---- votes
@@ -613,7 +618,48 @@ public final class TermsBoundaryTest {
         Check.equal("and not nine", c.undo(), 7);
     }
 
-    /** "Undo, save and restore concern the whole state, including the next id" */
+    /** "Undo, save and restore concern the whole state" */
+    private static void undoSaveAndRestoreConcernTheWholeState() {
+        concernsAll("addHedge", c -> c.addHedge(9, 9, 9));
+        concernsAll("propose", c -> c.propose(1, 1));
+        concernsAll("amend", c -> c.amend(0, 1, 1));
+        concernsAll("prune", c -> c.prune(0, 0));
+        concernsAll("regrow", c -> c.regrow(0));
+        concernsAll("vote", c -> c.vote(3));
+        concernsAll("passSeason", c -> c.passSeason());
+        concernsAll("run", c -> Makers.run(c, "prune 0 0;vote 0"));
+        concernsAll("a rejection", c -> Makers.run(c, "hedge 99 0 0;main 9 8;vote 9"));
+        concernsAll("a veto", c -> Makers.run(c, "hedge 9 9 0;main 9 8;vote 9"));
+        HedgeCommittee c = Makers.fresh();
+        c.propose(5, 1);
+        c.addHedge(9, 1, 5);
+        c.save();
+        c.undo();
+        c.addHedge(9, 1, 0);
+        c.propose(9, 1);
+        Check.equal("taste of another hedge", c.leavesInFavour(0), 0);
+        c.vote(1);
+        c.restore();
+        Check.equal("taste that was saved", c.leavesInFavour(0), 9);
+        Check.equal("thorns that were saved", c.thorns(0), 1);
+    }
+
+    private static void concernsAll(String what, Refusals.Use change) {
+        HedgeCommittee c = Makers.untyped();
+        String before = Whole.answers(c);
+        change.on(c);
+        Check.equal(what + " changes something", Whole.answers(c).equals(before), false);
+        c.undo();
+        Check.equal("undo after " + what, Whole.answers(c), before);
+        c.save();
+        Check.equal("save before " + what, Whole.answers(c), before);
+        change.on(c);
+        c.passSeason();
+        c.restore();
+        Check.equal("restore after " + what, Whole.answers(c), before);
+    }
+
+    /** "including the next id" */
     private static void undoSaveAndRestoreConcernTheNextId() {
         HedgeCommittee c = Makers.fresh();
         c.propose(5, 1);
